@@ -1,0 +1,1203 @@
+/** Promise by promise: answers worked out by hand from the document, its edges, and what is refused. */
+public final class PromiseTest {
+    private static final int NONE = ThreeSizes.NONE;
+    private static final int BAD = -2;
+    private static final int OTHER = -3;
+    private static final int NOTHING = -4;
+    private static final int STUCK = -5;
+    private static final int FULL = -6;
+    private static final int[] FAR_OUT = {-1, Integer.MIN_VALUE, Integer.MAX_VALUE};
+
+    private PromiseTest() {
+    }
+
+    private static void due(String call, long got, long want) {
+        Check.due(call, got, want);
+    }
+
+    /** A ROW of longs (SORT 3) in SHELF s. */
+    private static void fill(ThreeSizes x, int s, long... elements) {
+        x.row(s, 3, elements.length);
+        for (int i = 0; i < elements.length; i++) {
+            x.set(s, i, elements[i]);
+        }
+    }
+
+    private static void boxes(ThreeSizes x, int small, int middle, int large) {
+        x.size(0, 0, small);
+        x.size(1, 0, middle);
+        x.size(2, 0, large);
+    }
+
+    /** One small box, GOES 3; always a small parcel, worth 10, back 5. */
+    private static ThreeSizes oneBox() {
+        ThreeSizes x = new ThreeSizes();
+        boxes(x, 1, 0, 0);
+        x.sort(0, 100, 10, 5);
+        return x;
+    }
+
+    /** No small box, one large one that is never fetched; a small SORT worth 2 and a large one worth 50, half and half. */
+    private static ThreeSizes scarce() {
+        ThreeSizes x = new ThreeSizes();
+        boxes(x, 0, 0, 1);
+        x.size(2, 2, 0);
+        x.sort(0, 50, 2, 0);
+        x.sort(2, 50, 50, 0);
+        return x;
+    }
+
+    private static void promise1() {
+        ThreeSizes x = new ThreeSizes();
+        int[] fresh = {0, 2, 2, 2, 0, 0, 0, 0, 1, 0, 0, 5, 0, 0, 0, 0, 0};
+        for (int i = 0; i < fresh.length; i++) {
+            due("new: status(" + i + ")", x.status(i), fresh[i]);
+        }
+        for (int s = 0; s < 8; s++) {
+            due("new: holds(" + s + ")", x.holds(s), NONE);
+        }
+        for (int size = 0; size < 3; size++) {
+            due("new: goes of " + size, x.size(size, 2, 3), 3);
+        }
+        for (int i = 0; i < 6; i++) {
+            due("new: day(" + i + ")", x.day(i), 0);
+        }
+        due("new: wipe()", x.wipe(), 0);
+        due("NONE", ThreeSizes.NONE, -1);
+        new ThreeSizes().sort(0, 1, 1, 1);
+        due("objects are apart", x.status(0), 0);
+    }
+
+    private static void promise2() {
+        ThreeSizes x = new ThreeSizes();
+        for (int sort = 0; sort < 5; sort++) {
+            due("row", x.row(sort, sort, 40), 1);
+            due("holds", x.holds(sort), sort);
+            due("element at first", x.element(sort, 39), 0);
+        }
+        due("row of no elements", x.row(7, 0, 0), 1);
+        due("set in none", x.set(7, 0, 1), BAD);
+        x.set(0, 0, 5);
+        due("a new row over an old one", x.row(0, 1, 3), 1);
+        due("is new", x.element(0, 0), 0);
+        due("is of that sort", x.holds(0), 1);
+        x.rule(3, 1, 0);
+        due("a row over a rule", x.row(3, 2, 1), 1);
+        due("holds it", x.holds(3), 2);
+        Check.refused(x, "row(8, 0, 1)", () -> x.row(8, 0, 1), BAD);
+        Check.refused(x, "row(0, 5, 1)", () -> x.row(0, 5, 1), BAD);
+        Check.refused(x, "row(0, 0, 41)", () -> x.row(0, 0, 41), BAD);
+        for (int far : FAR_OUT) {
+            Check.refused(x, "row(far, 0, 1)", () -> x.row(far, 0, 1), BAD);
+            Check.refused(x, "row(0, far, 1)", () -> x.row(0, far, 1), BAD);
+            Check.refused(x, "row(0, 0, far)", () -> x.row(0, 0, far), BAD);
+        }
+    }
+
+    private static void promise3() {
+        ThreeSizes x = new ThreeSizes();
+        long[] put = {0, 1, -1, 127, 128, 255, 256, 32767, 32768, 65536, 2147483647L, 2147483648L, 4294967296L, Long.MIN_VALUE};
+        long[][] due = {
+            {0, 1, -1, 127, -128, -1, 0, -1, 0, 0, -1, 0, 0, 0},
+            {0, 1, -1, 127, 128, 255, 256, 32767, -32768, 0, -1, 0, 0, 0},
+            {0, 1, -1, 127, 128, 255, 256, 32767, 32768, 65536, 2147483647L, -2147483648L, 0, 0},
+            put,
+            {0, 1, 1, 1, 1, 1, 1, 1, 1, 1, 1, 1, 1, 1}};
+        for (int sort = 0; sort < 5; sort++) {
+            x.row(sort, sort, put.length);
+            for (int i = 0; i < put.length; i++) {
+                due("set", x.set(sort, i, put[i]), 1);
+                due("sort " + sort + " of " + put[i], x.element(sort, i), due[sort][i]);
+            }
+        }
+        x.set(4, 1, 0);
+        due("a boolean not so again", x.element(4, 1), 0);
+        x.rule(6, 1, 0);
+        Check.refused(x, "set in no shelf", () -> x.set(8, 0, 1), BAD);
+        Check.refused(x, "set in a rule", () -> x.set(6, -1, 1), OTHER);
+        Check.refused(x, "set in nothing", () -> x.set(7, -1, 1), NOTHING);
+        Check.refused(x, "set behind the end", () -> x.set(0, put.length, 1), BAD);
+        for (int far : FAR_OUT) {
+            Check.refused(x, "set(far, 0, 1)", () -> x.set(far, 0, 1), BAD);
+            Check.refused(x, "set(0, far, 1)", () -> x.set(0, far, 1), BAD);
+        }
+    }
+
+    private static void promise4() {
+        ThreeSizes x = new ThreeSizes();
+        fill(x, 0, 1, 2, 3, 4, 5, 6);
+        fill(x, 1, 7, 8, 9);
+        due("copy", x.copy(0, 1, 3, 1, 2), 2);
+        due("left alone", x.element(1, 0), 7);
+        due("copied", x.element(1, 1), 4);
+        due("copied", x.element(1, 2), 5);
+        due("copy up within", x.copy(0, 0, 0, 1, 5), 5);
+        for (int i = 1; i < 6; i++) {
+            due("as they were, up", x.element(0, i), i);
+        }
+        due("copy down within", x.copy(0, 0, 2, 0, 4), 4);
+        due("as they were, down", x.element(0, 0), 2);
+        due("as they were, down", x.element(0, 3), 5);
+        due("copy none at the end", x.copy(0, 1, 6, 3, 0), 0);
+        due("copy all", x.copy(1, 0, 0, 3, 3), 3);
+        x.row(2, 2, 6);
+        x.rule(3, 1, 0);
+        Check.refused(x, "copy from no shelf", () -> x.copy(8, 3, 0, 0, 0), BAD);
+        Check.refused(x, "copy to no shelf", () -> x.copy(3, -1, 0, 0, 0), BAD);
+        Check.refused(x, "copy to a rule, from nothing", () -> x.copy(4, 3, 0, 0, -1), OTHER);
+        Check.refused(x, "copy from a rule, to nothing", () -> x.copy(3, 4, 0, 0, -1), OTHER);
+        Check.refused(x, "copy longs to ints", () -> x.copy(0, 2, 0, 0, -1), OTHER);
+        Check.refused(x, "copy from nothing", () -> x.copy(4, 0, 0, 0, -1), NOTHING);
+        Check.refused(x, "copy to nothing", () -> x.copy(0, 4, 0, 0, -1), NOTHING);
+        Check.refused(x, "copy from nothing to nothing", () -> x.copy(4, 4, 0, 0, 0), NOTHING);
+        Check.refused(x, "copy too many", () -> x.copy(0, 0, 0, 0, 7), BAD);
+        Check.refused(x, "copy over p's end", () -> x.copy(0, 1, 4, 0, 3), BAD);
+        Check.refused(x, "copy over q's end", () -> x.copy(0, 1, 0, 2, 2), BAD);
+        Check.refused(x, "copy none from behind the end", () -> x.copy(0, 1, 7, 0, 0), BAD);
+        Check.refused(x, "copy none to behind the end", () -> x.copy(0, 1, 0, 4, 0), BAD);
+        for (int far : FAR_OUT) {
+            Check.refused(x, "copy from far", () -> x.copy(0, 1, far, 0, 1), BAD);
+            Check.refused(x, "copy to far", () -> x.copy(0, 1, 0, far, 1), BAD);
+            Check.refused(x, "copy far many", () -> x.copy(0, 1, 1, 1, far), BAD);
+        }
+    }
+
+    private static void promises5and6() {
+        ThreeSizes x = new ThreeSizes();
+        fill(x, 0, 11, 12);
+        x.rule(1, 5, 3);
+        due("element", x.element(0, 1), 12);
+        due("element behind the end", x.element(0, 2), 0);
+        due("element of a rule", x.element(1, 0), 0);
+        due("element of nothing", x.element(2, 0), 0);
+        due("element of no shelf", x.element(8, 0), 0);
+        for (int kind = 1; kind <= 6; kind++) {
+            x.rule(7, kind, 0);
+            due("holds a rule", x.holds(7), 10 + kind);
+        }
+        due("holds longs", x.holds(0), 3);
+        due("holds nothing", x.holds(2), NONE);
+        due("no shelf holds", x.holds(8), NONE);
+        for (int far : FAR_OUT) {
+            due("element(far, 0)", x.element(far, 0), 0);
+            due("element(0, far)", x.element(0, far), 0);
+            due("holds(far)", x.holds(far), NONE);
+        }
+        due("nothing was refused", x.status(12), 0);
+        due("shelves in use", x.status(9), 3);
+    }
+
+    private static void promise7() {
+        ThreeSizes x = new ThreeSizes();
+        due("rule(0, 1, 0)", x.rule(0, 1, 0), 1);
+        due("rule(7, 6, 99)", x.rule(7, 6, 99), 1);
+        due("its a", x.says(7, 0), 99);
+        x.row(0, 0, 1);
+        due("a rule over a row", x.rule(0, 2, 3), 1);
+        due("holds it", x.holds(0), 12);
+        Check.refused(x, "rule(8, 1, 0)", () -> x.rule(8, 1, 0), BAD);
+        Check.refused(x, "rule(0, 0, 0)", () -> x.rule(0, 0, 0), BAD);
+        Check.refused(x, "rule(0, 7, 0)", () -> x.rule(0, 7, 0), BAD);
+        Check.refused(x, "rule(0, 1, 100)", () -> x.rule(0, 1, 100), BAD);
+        for (int far : FAR_OUT) {
+            Check.refused(x, "rule(far, 1, 0)", () -> x.rule(far, 1, 0), BAD);
+            Check.refused(x, "rule(0, far, 0)", () -> x.rule(0, far, 0), BAD);
+            Check.refused(x, "rule(0, 1, far)", () -> x.rule(0, 1, far), BAD);
+        }
+    }
+
+    private static void promise8() {
+        ThreeSizes x = new ThreeSizes();
+        boolean[][] isOf = {
+            {true, true, false, false, false, false, false}, // LEAST
+            {true, true, true, false, false, false, false}, // KEEP
+            {true, true, false, true, false, false, false}, // SOME
+            {true, false, false, false, true, false, false}, // GREAT
+            {true, false, false, false, true, true, false}, // EVEN
+            {true, false, false, false, false, false, true}}; // WISE
+        x.sort(0, 10, 10, 5);
+        // FREE 0 1 2: a LEAST gives 1, a KEEP by 1 gives 2, a SOME by 11 none, GREAT and EVEN 2
+        x.size(0, 1, 2);
+        x.size(1, 1, 1);
+        int[] by = {0, 1, 11, 0, 0, 33};
+        int[] given = {1, 2, NONE, 2, 2, 0};
+        for (int kind = 1; kind <= 6; kind++) {
+            x.rule(kind, kind, by[kind - 1]);
+            for (int taken = 0; taken <= 6; taken++) {
+                int s = kind;
+                int as = taken;
+                String call = "says of " + kind + " taken for " + taken;
+                if (!isOf[kind - 1][taken]) {
+                    Check.refused(x, call, () -> x.says(s, as), OTHER);
+                } else {
+                    due(call, x.says(kind, taken), taken == 0 ? by[kind - 1] : taken == 6 ? 20 : given[kind - 1]);
+                }
+            }
+        }
+        x.rule(6, 6, 19);
+        due("hours that count", x.says(6, 6), 19);
+        x.size(2, 0, 0);
+        due("LEAST still", x.says(1, 1), 1);
+        due("KEEP has none", x.says(2, 1), NONE);
+        due("EVEN", x.says(5, 4), 1);
+        Check.refused(x, "says of no shelf", () -> x.says(8, 0), BAD);
+        Check.refused(x, "says for 7", () -> x.says(0, 7), BAD);
+        Check.refused(x, "says of nothing", () -> x.says(0, 1), NOTHING);
+        x.row(0, 0, 1);
+        Check.refused(x, "says of a row", () -> x.says(0, 0), OTHER);
+        for (int far : FAR_OUT) {
+            Check.refused(x, "says(far, 0)", () -> x.says(far, 0), BAD);
+            Check.refused(x, "says(1, far)", () -> x.says(1, far), BAD);
+        }
+        ThreeSizes none = new ThreeSizes();
+        for (int kind = 1; kind <= 6; kind++) {
+            none.rule(kind, kind, 7);
+            int s = kind;
+            due("a with no sort", none.says(kind, 0), 7);
+            if (kind < 6) {
+                Check.refused(none, "says with no sort", () -> none.says(s, s), STUCK);
+            }
+        }
+        due("WISE with no sort", none.says(6, 6), 7);
+        Check.refused(none, "OTHER ahead of STUCK", () -> none.says(1, 2), OTHER);
+    }
+
+    private static void promise9() {
+        ThreeSizes x = new ThreeSizes();
+        for (int size = 0; size < 3; size++) {
+            int z = size;
+            due("boxes", x.size(size, 0, 4), 2);
+            due("boxes again", x.size(size, 0, 3), 4);
+            due("full", x.size(size, 1, 3), 0);
+            Check.refused(x, "fewer than full", () -> x.size(z, 0, 2), STUCK);
+            Check.refused(x, "more than boxes", () -> x.size(z, 1, 4), STUCK);
+            Check.refused(x, "5 boxes", () -> x.size(z, 0, 5), BAD);
+            Check.refused(x, "5 full", () -> x.size(z, 1, 5), BAD);
+            due("full again", x.size(size, 1, 0), 3);
+            due("no boxes", x.size(size, 0, 0), 3);
+            due("goes", x.size(size, 2, 10), 3);
+            due("goes again", x.size(size, 2, 0), 10);
+            Check.refused(x, "goes 11", () -> x.size(z, 2, 11), BAD);
+            Check.refused(x, "no such number", () -> x.size(z, 3, 0), BAD);
+            due("status boxes", x.status(1 + size), 0);
+        }
+        Check.refused(x, "size 3", () -> x.size(3, 0, 0), BAD);
+        for (int far : FAR_OUT) {
+            Check.refused(x, "size(far, 0, 0)", () -> x.size(far, 0, 0), BAD);
+            Check.refused(x, "size(0, far, 0)", () -> x.size(0, far, 0), BAD);
+            for (int what = 0; what < 3; what++) {
+                int which = what;
+                Check.refused(x, "size(0, what, far)", () -> x.size(0, which, far), BAD);
+            }
+        }
+    }
+
+    private static void promises10and12() {
+        ThreeSizes x = new ThreeSizes();
+        due("the least sort", x.sort(0, 0, 1, 0), 0);
+        due("the greatest sort", x.sort(2, 100, 99, 99), 1);
+        int[][] due = {{0, 0, 1, 0}, {2, 100, 99, 99}};
+        for (int sort = 0; sort < 2; sort++) {
+            for (int what = 0; what < 4; what++) {
+                due("sortOf", x.sortOf(sort, what), due[sort][what]);
+            }
+        }
+        Check.refused(x, "comes past 100", () -> x.sort(0, 1, 1, 0), STUCK);
+        Check.refused(x, "BAD ahead of STUCK", () -> x.sort(3, 1, 1, 0), BAD);
+        for (int i = 2; i < 6; i++) {
+            due("sort", x.sort(1, 0, 10, 5), i);
+        }
+        Check.refused(x, "STUCK ahead of FULL", () -> x.sort(0, 1, 1, 0), STUCK);
+        Check.refused(x, "a seventh", () -> x.sort(0, 0, 1, 0), FULL);
+        ThreeSizes y = new ThreeSizes();
+        y.sort(0, 1, 1, 1);
+        Check.refused(y, "size 3", () -> y.sort(3, 1, 1, 1), BAD);
+        Check.refused(y, "comes 101", () -> y.sort(0, 101, 1, 1), BAD);
+        Check.refused(y, "worth 0", () -> y.sort(0, 1, 0, 1), BAD);
+        Check.refused(y, "worth 100", () -> y.sort(0, 1, 100, 1), BAD);
+        Check.refused(y, "back 100", () -> y.sort(0, 1, 1, 100), BAD);
+        Check.refused(y, "no such sort", () -> y.sortOf(1, 0), BAD);
+        Check.refused(y, "no such number", () -> y.sortOf(0, 4), BAD);
+        for (int far : FAR_OUT) {
+            Check.refused(y, "sort(far, ..)", () -> y.sort(far, 1, 1, 1), BAD);
+            Check.refused(y, "sort(0, far, ..)", () -> y.sort(0, far, 1, 1), BAD);
+            Check.refused(y, "sort(0, 1, far, 1)", () -> y.sort(0, 1, far, 1), BAD);
+            Check.refused(y, "sort(0, 1, 1, far)", () -> y.sort(0, 1, 1, far), BAD);
+            Check.refused(y, "sortOf(far, 0)", () -> y.sortOf(far, 0), BAD);
+            Check.refused(y, "sortOf(0, far)", () -> y.sortOf(0, far), BAD);
+        }
+    }
+
+    private static void promise11() {
+        ThreeSizes x = new ThreeSizes();
+        fill(x, 0, 1, 20, 30, 4, 2, 40, 9, 0, 0, 41, 1, 1, 0, 1, 1, 1);
+        due("none wanted", x.sorts(0, 0), 0);
+        due("two and one that passes 100", x.sorts(0, 16), 2);
+        due("nothing was refused", x.status(12) + x.status(15) + x.status(16), 0);
+        due("two", x.status(0), 2);
+        due("size", x.sortOf(1, 0), 2);
+        due("comes", x.sortOf(1, 1), 40);
+        due("worth", x.sortOf(0, 2), 30);
+        due("back", x.sortOf(0, 3), 4);
+        fill(x, 1, 0, 0, 1, 0, 0, 0, 1, 0, 0, 0, 1, 0, 0, 0, 1, 0, 0, 0, 1, 0);
+        due("until there is no room", x.sorts(1, 20), 4);
+        due("no room", x.sorts(1, 4), 0);
+        due("FULL is not counted", x.status(16), 0);
+        ThreeSizes y = new ThreeSizes();
+        fill(y, 0, 4294967296L, 1, 1, 1);
+        due("a long that is no size", y.sorts(0, 4), 0);
+        fill(y, 0, 0, 1, 4294967297L, 1);
+        due("a long that is no worth", y.sorts(0, 4), 0);
+        fill(y, 0, 0, 1, 1, 1, 0, 1, 0, 1, 0, 1, 1, 1);
+        due("behind a bad one none comes", y.sorts(0, 12), 1);
+        due("only the first n", y.sorts(0, 4), 1);
+        y.row(1, 4, 4);
+        y.set(1, 2, 5);
+        due("by booleans", y.sorts(1, 4), 1);
+        due("is 1", y.sortOf(2, 2), 1);
+        y.rule(2, 1, 0);
+        Check.refused(y, "sorts by no shelf", () -> y.sorts(8, 4), BAD);
+        Check.refused(y, "sorts by a rule", () -> y.sorts(2, -1), OTHER);
+        Check.refused(y, "sorts by nothing", () -> y.sorts(3, -1), NOTHING);
+        Check.refused(y, "no multiple of four", () -> y.sorts(0, 6), BAD);
+        Check.refused(y, "more than elements", () -> y.sorts(0, 16), BAD);
+        Check.refused(y, "-4", () -> y.sorts(0, -4), BAD);
+        for (int far : FAR_OUT) {
+            Check.refused(y, "sorts(far, 4)", () -> y.sorts(far, 4), BAD);
+            Check.refused(y, "sorts(0, far)", () -> y.sorts(0, far), BAD);
+        }
+    }
+
+    private static void promise13() {
+        ThreeSizes x = new ThreeSizes();
+        due("near", x.ask(0, 10), 0);
+        due("near again", x.ask(0, 0), 10);
+        due("way", x.ask(1, 99), 5);
+        due("way again", x.ask(1, 0), 99);
+        x.ask(0, 4);
+        due("status near", x.status(10), 4);
+        due("status way", x.status(11), 0);
+        Check.refused(x, "near 11", () -> x.ask(0, 11), BAD);
+        Check.refused(x, "way 100", () -> x.ask(1, 100), BAD);
+        Check.refused(x, "ask 2", () -> x.ask(2, 1), BAD);
+        for (int far : FAR_OUT) {
+            Check.refused(x, "ask(far, 1)", () -> x.ask(far, 1), BAD);
+            Check.refused(x, "ask(0, far)", () -> x.ask(0, far), BAD);
+            Check.refused(x, "ask(1, far)", () -> x.ask(1, far), BAD);
+        }
+    }
+
+    private static void promises14and15() {
+        ThreeSizes x = new ThreeSizes();
+        due("feed 4", x.feed(('b' << 24) + ('o' << 16) + ('x' << 8) + ' ', 4), 4);
+        due("feed 3", x.feed((99 << 24) + ('1' << 16) + (' ' << 8) + '4', 3), 7);
+        due("status(7)", x.status(7), 7);
+        due("wall", x.wall(), 1);
+        due("boxes", x.status(2), 4);
+        due("feed 2", x.feed(0x7f7f0000 + ('n' << 8) + 'e', 2), 2);
+        due("feed 1", x.feed('a' + 256, 1), 3);
+        due("feed 1", x.feed('r', 1), 4);
+        due("feed 1", x.feed('7', 1), 5);
+        due("wall", x.wall(), 1);
+        due("near", x.status(10), 7);
+        for (int i = 1; i <= 49; i++) {
+            due("feed", x.feed(-1, 4), 4 * i);
+        }
+        due("199", x.feed(0, 3), 199);
+        Check.refused(x, "over 200", () -> x.feed(0, 2), FULL);
+        due("200", x.feed(0, 1), 200);
+        Check.refused(x, "201", () -> x.feed(0, 1), FULL);
+        Check.refused(x, "BAD ahead of FULL", () -> x.feed(0, 5), BAD);
+        due("wipe", x.wipe(), 200);
+        due("wipe again", x.wipe(), 0);
+        Check.refused(x, "feed none", () -> x.feed(1, 0), BAD);
+        Check.refused(x, "feed 5", () -> x.feed(1, 5), BAD);
+        for (int far : FAR_OUT) {
+            Check.refused(x, "feed far", () -> x.feed(1, far), BAD);
+        }
+    }
+
+    private static void fault(ThreeSizes x, String text, int place) {
+        String ahead = Check.told(x);
+        int[] counts = Check.refusals(x);
+        due("wall of '" + text + "'", Check.wall(x, text), -20 - place);
+        counts[0]++;
+        Check.same("refusals by '" + text + "'", java.util.Arrays.toString(Check.refusals(x)), java.util.Arrays.toString(counts));
+        Check.same("all else by '" + text + "'", Check.told(x), ahead);
+    }
+
+    private static void promise16() {
+        ThreeSizes x = new ThreeSizes();
+        due("one statement", Check.wall(x, "box 0 4"), 1);
+        due("all of them", Check.wall(x, "  box1 0;goes 2 10 ; near 010;way 99;sort 2 comes 20 worth 30 back 0  "), 5);
+        due("box", x.status(1), 4);
+        due("box", x.status(2), 0);
+        due("goes", x.size(2, 2, 10), 10);
+        due("near", x.status(10), 10);
+        due("way", x.status(11), 99);
+        due("THE TAPE is empty", x.status(7), 0);
+        due("sorts by halves", Check.wall(x, "sort 0 comes 1;sort 1 comes 2 worth 3;sort 2comes4back 6"), 3);
+        int[][] due = {{2, 20, 30, 0}, {0, 1, 10, 5}, {1, 2, 3, 5}, {2, 4, 10, 6}};
+        for (int sort = 0; sort < 4; sort++) {
+            for (int what = 0; what < 4; what++) {
+                due("sortOf", x.sortOf(sort, what), due[sort][what]);
+            }
+        }
+        x.size(0, 1, 3);
+        due("box down to what is full", Check.wall(x, "box 0 4;box 0 3"), 2);
+        fault(x, "", 0);
+        fault(x, "   ", 3);
+        fault(x, ";", 0);
+        fault(x, "box", 3);
+        fault(x, "box 0", 5);
+        fault(x, "box 0 ", 6);
+        fault(x, "box 0 3;", 8);
+        fault(x, "box 0 3 ; ", 10);
+        fault(x, "box 0 3;;", 8);
+        fault(x, "box 0 2", 6);
+        fault(x, "box 0 5", 6);
+        fault(x, "box 3 1", 4);
+        fault(x, "box x 1", 4);
+        fault(x, "box 0003 1", 4);
+        fault(x, "box 0 0004", 6);
+        fault(x, "box 0 99999999999", 6);
+        fault(x, "box 0 3 4", 8);
+        fault(x, "box 0 3 box 1 1", 8);
+        fault(x, "boxes 0 3", 0);
+        fault(x, "bo", 0);
+        fault(x, "goes 0 11", 7);
+        fault(x, "goes 3 1", 5);
+        fault(x, "near 11", 5);
+        fault(x, "way 100", 4);
+        fault(x, "way;", 3);
+        fault(x, "way 1!", 5);
+        fault(x, "way 1\u00e9", 5);
+        fault(x, "way\t1", 3);
+        fault(x, "Way 1", 0);
+        fault(x, "wayA 1", 3);
+        fault(x, "7", 0);
+        fault(x, "comes 7", 0);
+        fault(x, "sort 0", 6);
+        fault(x, "sort 3 comes 1", 5);
+        fault(x, "sort 0 worth 1", 7);
+        fault(x, "sort 0 comes", 12);
+        fault(x, "sort 0 comes 1 worth 0", 21);
+        fault(x, "sort 0 comes 1 worth 100", 21);
+        fault(x, "sort 0 comes 1 worth 1 back 100", 28);
+        fault(x, "sort 0 comes 1 back 1 worth 1", 22);
+        fault(x, "sort 0 comes 1 worth 1 worth 1", 23);
+        fault(x, "sort 0 comes 1 back 1 back 1", 22);
+        fault(x, "sort 0 comes 74", 13);
+        fault(x, "sort 0 comes 101", 13);
+        fault(x, "sort 0 comes 73;sort 0 comes 1", 29);
+        fault(x, "near 4;way 4;goes 0 0;box 1 1;sort 0 comes 1;oh", 45);
+        due("up to 100", Check.wall(x, "sort 0 comes 73;sort 0 comes 0"), 2);
+        fault(x, "sort 0 comes 0", 0);
+        fault(x, "near 1;sort", 7);
+        due("the rest still", Check.wall(x, "near 1"), 1);
+        StringBuilder many = new StringBuilder("way0");
+        for (int i = 0; i < 39; i++) {
+            many.append(";way1");
+        }
+        due("forty", Check.wall(x, many.append(' ').toString()), 40);
+        due("way", x.status(11), 1);
+    }
+
+    private static void promise17() {
+        ThreeSizes x = new ThreeSizes();
+        boxes(x, 4, 3, 2);
+        x.size(0, 1, 1);
+        x.size(1, 1, 3);
+        due("free", x.state(0), 5);
+        due("full", x.state(1), 4);
+        due("state", x.state(2), 3 + 0 + 50);
+        Check.refused(x, "state 3", () -> x.state(3), BAD);
+        for (int far : FAR_OUT) {
+            Check.refused(x, "state far", () -> x.state(far), BAD);
+        }
+    }
+
+    private static void promise18() {
+        ThreeSizes x = new ThreeSizes();
+        boxes(x, 4, 4, 3);
+        for (int size = 0; size < 3; size++) {
+            x.sort(size, 10, 10 + size, 5);
+        }
+        x.rule(1, 1, 3);
+        x.rule(2, 2, 2);
+        x.rule(3, 3, 11);
+        x.rule(4, 4, 3);
+        x.rule(5, 5, 3);
+        int[][] cases = {
+            // SORT, STATE, then by LEAST, KEEP 2, SOME 11, GREAT, EVEN
+            {0, 1 + 5 + 25, 0, 0, NONE, 2, 2},
+            {0, 5 * 2 + 25 * 3, 1, 2, NONE, 2, 2},
+            {0, 5 * 3 + 25 * 3, 1, 1, NONE, 2, 2},
+            {0, 5 * 2 + 25 * 2, 1, NONE, NONE, 2, 2},
+            {0, 4 + 5 * 3 + 25, 0, 0, NONE, 2, 0},
+            {0, 3 + 5 * 3 + 25, 0, 0, NONE, 2, 1},
+            {1, 4 + 5 + 25 * 3, 1, 1, 1, 2, 2},
+            {1, 4 + 5 * 2 + 25, 1, 1, 1, 2, 1},
+            {1, 4 + 25 * 2, 2, NONE, 2, 2, 2},
+            {1, 4, NONE, NONE, NONE, NONE, NONE},
+            {2, 4 + 5 * 4 + 25, 2, 2, 2, 2, 2},
+            {2, 4 + 5 * 4, NONE, NONE, NONE, NONE, NONE},
+            {0, 0, NONE, NONE, NONE, NONE, NONE}};
+        for (int[] c : cases) {
+            for (int s = 1; s <= 5; s++) {
+                due("gets(" + s + ", " + c[0] + ", " + c[1] + ")", x.gets(s, c[0], c[1]), c[1 + s]);
+            }
+        }
+        ThreeSizes y = scarce();
+        y.rule(0, 6, 0);
+        y.rule(1, 6, 1);
+        due("WISE of no hours takes it", y.gets(0, 0, 25), 2);
+        due("WISE of one hour leaves it", y.gets(1, 0, 25), NONE);
+        due("WISE gives it to what is worth it", y.gets(1, 1, 25), 2);
+        y.ask(0, 10);
+        y.ask(1, 0);
+        due("of several none rather than one", y.gets(0, 0, 25), NONE);
+        x.row(6, 0, 1);
+        Check.refused(x, "gets by no shelf", () -> x.gets(8, 0, 0), BAD);
+        Check.refused(x, "no sort", () -> x.gets(6, 3, 0), BAD);
+        Check.refused(x, "more free than boxes", () -> x.gets(6, 0, 100), BAD);
+        Check.refused(x, "state 125", () -> x.gets(7, 0, 125), BAD);
+        Check.refused(x, "gets by a row", () -> x.gets(6, 0, 0), OTHER);
+        Check.refused(x, "gets by nothing", () -> x.gets(7, 0, 0), NOTHING);
+        for (int far : FAR_OUT) {
+            Check.refused(x, "gets(far, 0, 0)", () -> x.gets(far, 0, 0), BAD);
+            Check.refused(x, "gets(1, far, 0)", () -> x.gets(1, far, 0), BAD);
+            Check.refused(x, "gets(1, 0, far)", () -> x.gets(1, 0, far), BAD);
+        }
+        x.size(0, 1, 4);
+        due("a state with more free than now", x.gets(1, 0, 4), 0);
+    }
+
+    private static void promise19() {
+        ThreeSizes x = new ThreeSizes();
+        x.sort(0, 10, 20, 7);
+        due("all back", x.lost(0), -7000000);
+        x.ask(0, 10);
+        due("all near", x.lost(0), 15000000);
+        x.ask(0, 4);
+        due("some near", x.lost(0), 100000 * (4 * 15 - 6 * 7));
+        x.ask(1, 99);
+        due("a long way", x.lost(0), 100000 * (4 * -79 - 6 * 7));
+        Check.refusedFar(x, "lost(1)", () -> x.lost(1), BAD);
+        for (int far : FAR_OUT) {
+            Check.refusedFar(x, "lost(far)", () -> x.lost(far), BAD);
+        }
+    }
+
+    private static void promises20and21() {
+        ThreeSizes x = oneBox();
+        x.rule(0, 1, 0);
+        x.rule(1, 3, 11);
+        long[] best = {0, 10000000, 9500000, 9000000};
+        for (int n = 0; n < best.length; n++) {
+            due("best(" + n + ")", x.best(n), best[n]);
+            due("value(0, " + n + ")", x.value(0, n), best[n]);
+            due("value(1, " + n + ")", x.value(1, n), -5000000L * n);
+        }
+        x.size(0, 1, 1);
+        due("full: fetched by 3 of 10", x.best(1), -500000);
+        x.size(0, 2, 10);
+        due("full: fetched for sure", x.best(24), 240000000);
+        x.size(0, 2, 0);
+        due("full: never fetched", x.best(24), -120000000);
+        cuts();
+        ThreeSizes z = scarce();
+        z.rule(0, 1, 0);
+        z.rule(1, 6, 1);
+        due("the small one takes it", z.value(0, 1), 26000000);
+        due("the best of one hour", z.best(1), 26000000);
+        due("of two: it is kept for the large one", z.best(2), 25000000 + 13000000);
+        due("of two by LEAST", z.value(0, 2), 26000000);
+        due("WISE leaves it in the last hour, too", z.value(1, 1), 25000000);
+        due("of two by WISE", z.value(1, 2), 25000000 + 12500000);
+        z.row(2, 0, 1);
+        Check.refusedFar(z, "value of no shelf", () -> z.value(8, 1), BAD);
+        Check.refusedFar(z, "value of 25 hours", () -> z.value(2, 25), BAD);
+        Check.refusedFar(z, "value by a row", () -> z.value(2, 1), OTHER);
+        Check.refusedFar(z, "value by nothing", () -> z.value(3, 1), NOTHING);
+        Check.refusedFar(z, "best of 25 hours", () -> z.best(25), BAD);
+        for (int far : FAR_OUT) {
+            Check.refusedFar(z, "value(far, 1)", () -> z.value(far, 1), BAD);
+            Check.refusedFar(z, "value(0, far)", () -> z.value(0, far), BAD);
+            Check.refusedFar(z, "best(far)", () -> z.best(far), BAD);
+        }
+    }
+
+    /** One small box, FULL; one SORT comes by 1 of 100: what is cut, and toward 0. */
+    private static void cuts() {
+        ThreeSizes x = new ThreeSizes();
+        boxes(x, 1, 0, 0);
+        x.size(0, 1, 1);
+        x.sort(0, 1, 1, 0);
+        due("one hour", x.best(1), 3000);
+        // 3/10 * (1/100 * 1,003,000 + 99/100 * 10,000) + 7/10 * 3,000
+        due("two hours", x.best(2), 8079);
+        // 3/10 * (1/100 * 1,008,079 + 99/100 * 19,930) + 7/10 * 8,079 = 14,598.747
+        due("three hours, cut", x.best(3), 14598);
+        ThreeSizes y = new ThreeSizes();
+        boxes(y, 1, 0, 0);
+        y.size(0, 1, 1);
+        y.sort(0, 1, 1, 99);
+        y.rule(0, 1, 0);
+        due("one hour", y.best(1), -690000);
+        due("two hours", y.best(2), -1172100);
+        // 3/10 * (1/100 * (1,000,000 - 1,172,100) + 99/100 * 13,000) - 7/10 * 2,162,100 = -1,510,125.3
+        due("three hours, cut toward 0", y.best(3), -1510125);
+        due("three hours by a rule, cut toward 0", y.value(0, 3), -1510125);
+    }
+
+    private static void promises22and23() {
+        ThreeSizes x = scarce();
+        due("now takes it", x.now(0, 0), 2);
+        due("now leaves it", x.now(0, 1), NONE);
+        due("now for what is worth it", x.now(1, 24), 2);
+        x.size(2, 1, 1);
+        due("nothing free", x.now(1, 0), NONE);
+        ThreeSizes y = new ThreeSizes();
+        y.sort(0, 10, 10, 5);
+        due("of several the least", y.now(0, 0), 0);
+        ThreeSizes z = scarce();
+        z.rule(0, 1, 0);
+        z.rule(1, 6, 24);
+        due("gap of two hours", z.gap(0, 2), 12000000);
+        due("gap of one hour", z.gap(0, 1), 0);
+        due("gap of WISE", z.gap(1, 1), 1000000);
+        due("gap of no hours", z.gap(1, 0), 0);
+        z.row(2, 0, 1);
+        Check.refused(z, "now of no sort", () -> z.now(2, 1), BAD);
+        Check.refused(z, "now of 25 hours", () -> z.now(0, 25), BAD);
+        Check.refusedFar(z, "gap of no shelf", () -> z.gap(8, 1), BAD);
+        Check.refusedFar(z, "gap of 25 hours", () -> z.gap(3, 25), BAD);
+        Check.refusedFar(z, "gap by a row", () -> z.gap(2, 1), OTHER);
+        Check.refusedFar(z, "gap by nothing", () -> z.gap(3, 1), NOTHING);
+        for (int far : FAR_OUT) {
+            Check.refused(z, "now(far, 1)", () -> z.now(far, 1), BAD);
+            Check.refused(z, "now(0, far)", () -> z.now(0, far), BAD);
+            Check.refusedFar(z, "gap(far, 1)", () -> z.gap(far, 1), BAD);
+            Check.refusedFar(z, "gap(0, far)", () -> z.gap(0, far), BAD);
+        }
+    }
+
+    private static void promises24and25() {
+        ThreeSizes x = scarce();
+        Check.refused(x, "no rule", () -> x.head(1), STUCK);
+        x.row(0, 0, 4);
+        Check.refused(x, "a row alone", () -> x.head(1), STUCK);
+        x.rule(2, 1, 0);
+        x.rule(4, 4, 0);
+        x.rule(5, 6, 5);
+        x.rule(6, 2, 4);
+        due("head of one hour: LEAST, the first", x.head(1), 2);
+        due("head of two hours: WISE, ahead of KEEP", x.head(2), 5);
+        due("head of no hours: the first", x.head(0), 2);
+        x.rule(0, 3, 99);
+        due("SOME is less", x.head(1), 2);
+        due("keep of one hour", x.keep(1), 0);
+        due("keep of two hours", x.keep(2), 1);
+        due("keep of no hours", x.keep(0), 0);
+        ThreeSizes lossy = new ThreeSizes();
+        boxes(lossy, 0, 0, 0);
+        lossy.sort(0, 100, 10, 5);
+        lossy.rule(3, 1, 0);
+        due("all below 0: still the first", lossy.head(5), 3);
+        due("all below 0: still the least", lossy.keep(5), 0);
+        // two boxes, three HOURS: 52 by 0, 63.5 by 1, 68.75 by 2 and more
+        ThreeSizes more = scarce();
+        boxes(more, 0, 0, 2);
+        due("keep both for large ones", more.keep(3), 2);
+        Check.refused(x, "head of 25", () -> x.head(25), BAD);
+        Check.refused(x, "keep of 25", () -> x.keep(25), BAD);
+        for (int far : FAR_OUT) {
+            Check.refused(x, "head(far)", () -> x.head(far), BAD);
+            Check.refused(x, "keep(far)", () -> x.keep(far), BAD);
+        }
+    }
+
+    private static void promise26() {
+        ThreeSizes x = scarce();
+        boxes(x, 0, 1, 1);
+        x.size(1, 2, 0);
+        fill(x, 0, 0, 1, 0, 1, 7);
+        due("cart of none", x.cart(0, 0, 0, NONE), 0);
+        due("cart of none with an hour", x.cart(0, 0, 1, NONE), x.best(1));
+        due("cart of two", x.cart(0, 2, 0, NONE), 52000000);
+        due("the first", x.cart(0, 2, 0, 0), 1);
+        due("the second", x.cart(0, 2, 0, 1), 2);
+        due("cart of four", x.cart(0, 4, 0, NONE), 52000000);
+        // of the two small ones the first may go without: none comes first
+        due("none first", x.cart(0, 4, 0, 0), NONE);
+        due("the large one", x.cart(0, 4, 0, 1), NONE);
+        due("the other small one", x.cart(0, 4, 0, 2), 1);
+        due("the other large one", x.cart(0, 4, 0, 3), 2);
+        due("one with an hour behind it", x.cart(0, 1, 1, NONE), 2000000 + 26000000);
+        due("gets the middle one", x.cart(0, 1, 1, 0), 1);
+        x.rule(1, 1, 0);
+        x.row(3, 4, 6);
+        due("booleans are sorts", x.cart(3, 6, 0, NONE), 4000000);
+        Check.refusedFar(x, "no shelf", () -> x.cart(8, 0, 0, NONE), BAD);
+        Check.refusedFar(x, "seven", () -> x.cart(0, 7, 0, NONE), BAD);
+        Check.refusedFar(x, "25 hours", () -> x.cart(0, 1, 25, NONE), BAD);
+        Check.refusedFar(x, "no such one", () -> x.cart(0, 2, 0, 2), BAD);
+        Check.refusedFar(x, "no such one, ahead", () -> x.cart(1, 2, 0, 2), BAD);
+        Check.refusedFar(x, "no such one at all, ahead", () -> x.cart(2, 0, 0, 0), BAD);
+        Check.refusedFar(x, "-2", () -> x.cart(0, 2, 0, -2), BAD);
+        Check.refusedFar(x, "no sort", () -> x.cart(0, 5, 0, NONE), BAD);
+        Check.refusedFar(x, "fewer elements", () -> x.cart(0, 6, 0, NONE), BAD);
+        Check.refusedFar(x, "cart by a rule", () -> x.cart(1, 6, 0, NONE), OTHER);
+        Check.refusedFar(x, "cart by nothing", () -> x.cart(2, 6, 0, NONE), NOTHING);
+        fill(x, 4, 4294967296L, -1);
+        Check.refusedFar(x, "a long that is no sort", () -> x.cart(4, 1, 0, NONE), BAD);
+        for (int far : FAR_OUT) {
+            Check.refusedFar(x, "cart(far, ..)", () -> x.cart(far, 1, 1, 0), BAD);
+            Check.refusedFar(x, "cart(0, far, ..)", () -> x.cart(0, far, 1, NONE), BAD);
+            Check.refusedFar(x, "cart(0, 1, far, 0)", () -> x.cart(0, 1, far, 0), BAD);
+            if (far != NONE) {
+                Check.refusedFar(x, "cart(0, 1, 1, far)", () -> x.cart(0, 1, 1, far), BAD);
+            }
+        }
+    }
+
+    private static void promises27and28() {
+        ThreeSizes x = new ThreeSizes();
+        boxes(x, 1, 1, 2);
+        for (int size = 0; size < 3; size++) {
+            x.sort(size, 10, 10, 5);
+        }
+        fill(x, 0, 0, 1, 2, 0, 1, 2, 9);
+        fill(x, 1, 0, 1, 2, 2, 2, -1);
+        due("judge", x.judge(0, 1, 4), NONE);
+        due("no free box any more", x.judge(0, 1, 5), 4);
+        fill(x, 2, 4294967296L, 0, 2);
+        due("does not fit", x.judge(0, 2, 3), 1);
+        due("others than 0 to 2 are none", x.judge(0, 2, 1), NONE);
+        due("judge of none", x.judge(0, 2, 0), NONE);
+        Check.refused(x, "put what is wrong", () -> x.put(0, 1, 5), STUCK);
+        x.rule(3, 1, 0);
+        for (boolean judged : new boolean[] {true, false}) {
+            String name = judged ? "judge " : "put ";
+            placingRefused(x, name + "no shelf s", judged, 8, 3, 0, BAD);
+            placingRefused(x, name + "no shelf t", judged, 4, 8, 0, BAD);
+            placingRefused(x, name + "k 7", judged, 3, 4, 7, BAD);
+            placingRefused(x, name + "k -1", judged, 3, 4, -1, BAD);
+            placingRefused(x, name + "a rule s", judged, 3, 4, 6, OTHER);
+            placingRefused(x, name + "a rule t", judged, 4, 3, 6, OTHER);
+            placingRefused(x, name + "nothing s", judged, 4, 0, 6, NOTHING);
+            placingRefused(x, name + "nothing t", judged, 0, 4, 6, NOTHING);
+            placingRefused(x, name + "fewer told", judged, 0, 2, 4, BAD);
+            placingRefused(x, name + "fewer sorts", judged, 2, 0, 4, BAD);
+            placingRefused(x, name + "no sort", judged, 2, 0, 1, BAD);
+            for (int far : FAR_OUT) {
+                placingRefused(x, name + "far s", judged, far, 1, 1, BAD);
+                placingRefused(x, name + "far t", judged, 0, far, 1, BAD);
+                placingRefused(x, name + "far k", judged, 0, 1, far, BAD);
+            }
+        }
+        due("put of none", x.put(0, 1, 0), 0);
+        due("put", x.put(0, 1, 4), 4);
+        due("full small", x.status(4), 1);
+        due("full middle", x.status(5), 1);
+        due("full large", x.status(6), 2);
+        due("not in truth", x.day(1), 0);
+        fill(x, 5, 3, -1, 0);
+        due("put in none", x.put(0, 5, 2), 0);
+        due("now it is wrong", x.judge(0, 5, 3), 2);
+        due("all full", x.state(0), 0);
+    }
+
+    private static void placingRefused(ThreeSizes x, String call, boolean judged, int s, int t, int k, int number) {
+        Check.refused(x, call, () -> judged ? x.judge(s, t, k) : x.put(s, t, k), number);
+    }
+
+    private static void promise29() {
+        ThreeSizes x = new ThreeSizes();
+        x.sort(1, 100, 10, 5);
+        x.size(1, 1, 2);
+        due("no wall", x.build(0, 5, 0), 0);
+        due("no room for a middle one", x.build(1, 5, 0), 0);
+        due("one middle one", x.build(2, 5, 0), 5);
+        due("one middle one takes", x.build(3, 5, 1), 2);
+        due("one hour: one is enough", x.build(30, 1, 0), 5);
+        due("one hour: takes 2", x.build(30, 1, 1), 2);
+        due("no hours", x.build(30, 0, 0), 0);
+        due("two hours: two", x.build(30, 2, 0), 10);
+        due("two hours in 5: two", x.build(5, 2, 0), 10);
+        due("as it was", x.status(2) * 10 + x.status(5), 22);
+        ThreeSizes y = new ThreeSizes();
+        y.sort(2, 100, 10, 5);
+        due("a large one", y.build(28, 1, 0), 25);
+        due("takes", y.build(28, 1, 1), 4);
+        due("seven hours and all the wall", y.build(30, 24, 0), 100);
+        y.size(2, 2, 10);
+        due("fetched at once: one is enough", y.build(30, 24, 0), 25);
+        Check.refused(y, "wall 31", () -> y.build(31, 1, 0), BAD);
+        Check.refused(y, "25 hours", () -> y.build(1, 25, 0), BAD);
+        Check.refused(y, "what 2", () -> y.build(1, 1, 2), BAD);
+        for (int far : FAR_OUT) {
+            Check.refused(y, "build(far, 1, 0)", () -> y.build(far, 1, 0), BAD);
+            Check.refused(y, "build(1, far, 0)", () -> y.build(1, far, 0), BAD);
+            Check.refused(y, "build(1, 1, far)", () -> y.build(1, 1, far), BAD);
+        }
+    }
+
+    private static void promises30and31() {
+        ThreeSizes x = oneBox();
+        due("the only box", x.worth(0, 1), 15000000);
+        due("the only box, two hours", x.worth(0, 2), 9500000 + 10000000);
+        due("its price: it could be fetched", x.price(0, 1), 10500000);
+        due("its price of two hours", x.price(0, 2), 9500000 - (-500000 - 500000));
+        due("of no hours", x.worth(0, 0) + x.price(0, 0), 0);
+        due("as it was", x.status(1) * 10 + x.status(4), 10);
+        Check.refusedFar(x, "worth of none free", () -> x.worth(1, 1), STUCK);
+        Check.refusedFar(x, "price of none free", () -> x.price(1, 1), STUCK);
+        x.size(0, 1, 1);
+        Check.refusedFar(x, "worth of a full one", () -> x.worth(0, 1), STUCK);
+        Check.refusedFar(x, "price of a full one", () -> x.price(0, 1), STUCK);
+        Check.refusedFar(x, "worth, BAD ahead", () -> x.worth(0, 25), BAD);
+        Check.refusedFar(x, "price, BAD ahead", () -> x.price(0, 25), BAD);
+        Check.refusedFar(x, "worth of size 3", () -> x.worth(3, 1), BAD);
+        Check.refusedFar(x, "price of size 3", () -> x.price(3, 1), BAD);
+        for (int far : FAR_OUT) {
+            Check.refusedFar(x, "worth(far, 1)", () -> x.worth(far, 1), BAD);
+            Check.refusedFar(x, "worth(0, far)", () -> x.worth(0, far), BAD);
+            Check.refusedFar(x, "price(far, 1)", () -> x.price(far, 1), BAD);
+            Check.refusedFar(x, "price(0, far)", () -> x.price(0, far), BAD);
+        }
+    }
+
+    private static void promises32and33() {
+        ThreeSizes x = scarce();
+        due("the small one brings", x.brings(0, 1), 1000000);
+        due("the large one brings", x.brings(1, 1), 25000000);
+        due("of two hours", x.brings(0, 2), 38000000 - 37500000);
+        due("of no hours", x.brings(0, 0), 0);
+        due("as it was", x.sortOf(0, 1), 50);
+        Check.refusedFar(x, "brings of no sort", () -> x.brings(2, 1), BAD);
+        Check.refusedFar(x, "brings of 25 hours", () -> x.brings(0, 25), BAD);
+        ThreeSizes y = new ThreeSizes();
+        for (int size = 0; size < 3; size++) {
+            y.sort(size, 0, 1, 0);
+        }
+        due("fits", y.fits(0) * 100 + y.fits(1) * 10 + y.fits(2), 764);
+        y.size(1, 1, 2);
+        due("fits", y.fits(0) * 100 + y.fits(1) * 10 + y.fits(2), 544);
+        y.size(2, 1, 2);
+        due("fits", y.fits(0) * 100 + y.fits(1) * 10 + y.fits(2), 100);
+        Check.refused(y, "fits of no sort", () -> y.fits(3), BAD);
+        for (int far : FAR_OUT) {
+            Check.refusedFar(x, "brings(far, 1)", () -> x.brings(far, 1), BAD);
+            Check.refusedFar(x, "brings(0, far)", () -> x.brings(0, far), BAD);
+            Check.refused(y, "fits(far)", () -> y.fits(far), BAD);
+        }
+    }
+
+    private static void promises34and35() {
+        ThreeSizes x = new ThreeSizes();
+        due("no sorts: all alike, the least", x.worst(3), 0);
+        x.sort(0, 50, 10, 5);
+        due("nothing free", x.worst(3), 0);
+        x.size(1, 2, 10);
+        due("a middle one fetched at once: all alike", x.worst(1), 0);
+        due("as it was", x.state(2), 62);
+        ThreeSizes y = oneBox();
+        y.size(0, 1, 0);
+        due("worst", y.worst(2), 0);
+        Check.refused(x, "worst of 25 hours", () -> x.worst(25), BAD);
+        ThreeSizes b = new ThreeSizes();
+        boxes(b, 0, 0, 1);
+        b.sort(0, 100, 10, 5);
+        b.size(2, 2, 0);
+        b.size(0, 2, 0);
+        due("one large one for three small ones, one hour", b.board(1), 0);
+        due("two hours: 20 for 5", b.board(2), 15000000);
+        due("three hours: 30 for 0", b.board(3), 30000000);
+        due("four hours: 25 for -5", b.board(4), 30000000);
+        b.size(0, 0, 2);
+        due("four at most: 40 for 25", b.board(4), 40000000 - 25000000);
+        b.size(0, 1, 2);
+        due("two of the four are full", b.board(4), 10000000 - -5000000);
+        ThreeSizes c = new ThreeSizes();
+        c.sort(2, 100, 10, 5);
+        boxes(c, 4, 0, 1);
+        due("a large one is missed", c.board(1), -15000000);
+        due("as it was", c.status(1) * 10 + c.status(3), 41);
+        c.size(2, 1, 1);
+        Check.refusedFar(c, "no large one is free", () -> c.board(1), STUCK);
+        Check.refusedFar(c, "BAD ahead", () -> c.board(25), BAD);
+        for (int far : FAR_OUT) {
+            Check.refused(x, "worst(far)", () -> x.worst(far), BAD);
+            Check.refusedFar(c, "board(far)", () -> c.board(far), BAD);
+        }
+    }
+
+    private static void promises36and37() {
+        ThreeSizes x = oneBox();
+        due("nothing to be fetched", x.letter(0, 1), 0);
+        due("for whom", x.whom(1), NONE);
+        x.size(0, 1, 1);
+        due("by 6 of 10", x.letter(0, 1), 4500000);
+        due("two hours: FREE or FULL, FULL after it", x.letter(0, 2), 4500000);
+        due("for whom", x.whom(1), 0);
+        due("none of that size", x.letter(1, 1), 0);
+        x.size(0, 2, 9);
+        due("10 at most", x.letter(0, 1), 1500000);
+        x.size(0, 2, 10);
+        due("10 already", x.letter(0, 1), 0);
+        due("none brings more than 0", x.whom(1), NONE);
+        due("as it was", x.size(0, 2, 10), 10);
+        ThreeSizes y = new ThreeSizes();
+        y.sort(0, 100, 10, 5);
+        boxes(y, 0, 1, 1);
+        y.size(1, 1, 1);
+        y.size(2, 1, 1);
+        due("of several the least", y.whom(1), 1);
+        y.size(1, 2, 2);
+        y.size(2, 2, 8);
+        due("none is fetched by 16 of 100, or 10", y.letter(1, 1), 900000);
+        due("none is fetched by 16 of 100, or 0", y.letter(2, 1), 2400000);
+        due("for the one that brings most", y.whom(1), 2);
+        ThreeSizes z = new ThreeSizes();
+        z.sort(2, 100, 10, 5);
+        boxes(z, 1, 1, 1);
+        z.size(0, 1, 1);
+        z.size(2, 1, 1);
+        due("a small one is of no use", z.letter(0, 1), 0);
+        due("the large one is", z.whom(1), 2);
+        Check.refusedFar(x, "letter of no hours", () -> x.letter(0, 0), BAD);
+        Check.refusedFar(x, "letter of 25 hours", () -> x.letter(0, 25), BAD);
+        Check.refusedFar(x, "letter of size 3", () -> x.letter(3, 1), BAD);
+        Check.refused(x, "whom of no hours", () -> x.whom(0), BAD);
+        Check.refused(x, "whom of 25 hours", () -> x.whom(25), BAD);
+        for (int far : FAR_OUT) {
+            Check.refusedFar(x, "letter(far, 1)", () -> x.letter(far, 1), BAD);
+            Check.refusedFar(x, "letter(0, far)", () -> x.letter(0, far), BAD);
+            Check.refused(x, "whom(far)", () -> x.whom(far), BAD);
+        }
+    }
+
+    private static void promise38() {
+        ThreeSizes x = new ThreeSizes();
+        due("no sorts", x.feast(50, 3), 0);
+        x.sort(0, 30, 10, 5);
+        x.sort(1, 20, 20, 5);
+        due("one hour", x.feast(10, 1), 1000000 + 2000000);
+        due("25 each is just right", x.feast(25, 1), 2500000 + 5000000);
+        due("none more", x.feast(0, 5), 0);
+        due("of no hours", x.feast(25, 0), 0);
+        due("as it was", x.sortOf(0, 1) + x.sortOf(1, 1), 50);
+        Check.refusedFar(x, "past 100", () -> x.feast(26, 1), STUCK);
+        Check.refusedFar(x, "BAD ahead", () -> x.feast(26, 25), BAD);
+        Check.refusedFar(x, "51", () -> x.feast(51, 1), BAD);
+        for (int far : FAR_OUT) {
+            Check.refusedFar(x, "feast(far, 1)", () -> x.feast(far, 1), BAD);
+            Check.refusedFar(x, "feast(1, far)", () -> x.feast(1, far), BAD);
+        }
+    }
+
+    private static int drawn(int[] seed, int below) {
+        seed[0] = seed[0] * 1103515245 + 12345;
+        return (seed[0] >>> 16) % below;
+    }
+
+    private static void promises39to41() {
+        ThreeSizes x = new ThreeSizes();
+        x.rule(0, 1, 0);
+        due("an hour with no sorts", x.go(0, 1), 0);
+        due("one draw", x.seed(1), 1103515245 + 12345);
+        due("the seed ahead", x.seed(-5), 1);
+        due("hours", x.day(0), 1);
+        // a parcel that comes for sure and never fits: two draws an hour
+        boxes(x, 0, 0, 0);
+        x.sort(1, 100, 9, 4);
+        x.ask(0, 5);
+        x.ask(1, 20);
+        int[] seed = {-5};
+        int sum = 0;
+        int near = 0;
+        for (int hour = 0; hour < 200; hour++) {
+            drawn(seed, 100);
+            boolean isNear = drawn(seed, 10) < 5;
+            near += isNear ? 1 : 0;
+            sum += isNear ? 9 - 20 : -4;
+        }
+        due("200 hours", x.go(0, 200), sum);
+        due("hours", x.day(0), 201);
+        due("none got a box", x.day(1), 0);
+        due("near", x.day(2), near);
+        due("back", x.day(3), 200 - near);
+        due("none fetched", x.day(4), 0);
+        due("taken less paid", x.day(5), sum);
+        due("the seed", x.status(8), seed[0]);
+        promise39WithBoxes();
+        x.row(1, 0, 1);
+        Check.refused(x, "go by no shelf", () -> x.go(8, 1), -1000002, BAD);
+        Check.refused(x, "no hours", () -> x.go(1, 0), -1000002, BAD);
+        Check.refused(x, "201 hours", () -> x.go(2, 201), -1000002, BAD);
+        Check.refused(x, "go by a row", () -> x.go(1, 1), -1000003, OTHER);
+        Check.refused(x, "go by nothing", () -> x.go(2, 1), -1000004, NOTHING);
+        Check.refused(x, "day 6", () -> x.day(6), -1000002, BAD);
+        for (int far : FAR_OUT) {
+            Check.refused(x, "go(far, 1)", () -> x.go(far, 1), -1000002, BAD);
+            Check.refused(x, "go(0, far)", () -> x.go(0, far), -1000002, BAD);
+            Check.refused(x, "day(far)", () -> x.day(far), -1000002, BAD);
+        }
+    }
+
+    /** Two sorts for the small and the large boxes, both sizes fetched; the same hours once more, drawn here. */
+    private static void promise39WithBoxes() {
+        ThreeSizes x = new ThreeSizes();
+        boxes(x, 1, 0, 1);
+        x.size(0, 2, 4);
+        x.size(2, 2, 6);
+        x.sort(0, 35, 3, 1);
+        x.sort(2, 40, 8, 2);
+        x.rule(0, 2, 1);
+        int[] seed = {1};
+        int sum = 0;
+        int got = 0;
+        int fetched = 0;
+        boolean small = false;
+        boolean large = false;
+        for (int hour = 0; hour < 150; hour++) {
+            if (small && drawn(seed, 10) < 4) {
+                small = false;
+                fetched++;
+            }
+            if (large && drawn(seed, 10) < 6) {
+                large = false;
+                fetched++;
+            }
+            int came = drawn(seed, 100);
+            if (came < 75) {
+                boolean first = came < 35;
+                if (first ? small : large) {
+                    drawn(seed, 10);
+                    sum -= first ? 1 : 2;
+                } else {
+                    small |= first;
+                    large |= !first;
+                    got++;
+                    sum += first ? 3 : 8;
+                }
+            }
+        }
+        due("150 hours with boxes", x.go(0, 100) + x.go(0, 50), sum);
+        due("got a box", x.day(1), got);
+        due("fetched", x.day(4), fetched);
+        due("taken less paid", x.day(5), sum);
+        due("full small", x.status(4), small ? 1 : 0);
+        due("full large", x.status(6), large ? 1 : 0);
+        due("the seed", x.seed(7), seed[0]);
+        due("the new seed", x.status(8), 7);
+    }
+
+    private static void promises42and43() {
+        ThreeSizes x = new ThreeSizes();
+        Check.refused(x, "nothing was kept", x::back, STUCK);
+        Check.wall(x, "box 0 3;goes 1 7;near 3;way 8;sort 0 comes 30;sort 2 comes 50 worth 7");
+        x.size(2, 1, 1);
+        x.rule(0, 1, 0);
+        x.go(0, 30);
+        String kept = Check.told(x);
+        due("image", x.image(), 1);
+        for (int round = 0; round < 2; round++) {
+            x.go(0, 40);
+            x.seed(round);
+            Check.wall(x, "box 0 4;goes 1 2;near 9;way 9;sort 1 comes 10");
+            x.size(1, 1, 2);
+            x.size(0, 1, 1);
+            due("back", x.back(), 1);
+            Check.same("all is as it was", Check.told(x), kept);
+        }
+        x.row(1, 2, 3);
+        x.rule(0, 4, 9);
+        x.feed(1, 3);
+        x.state(9);
+        due("back", x.back(), 1);
+        due("shelves stay", x.holds(0) * 100 + x.holds(1), 1402);
+        due("the tape stays", x.status(7), 3);
+        due("refusals stay", x.status(12), 1);
+        due("stuck stay", x.status(15), 1);
+        x.ask(0, 1);
+        due("image again", x.image(), 1);
+        x.ask(0, 2);
+        x.back();
+        due("the later one", x.status(10), 1);
+    }
+
+    private static void promise44() {
+        ThreeSizes x = new ThreeSizes();
+        Check.wall(x, "box 0 1;box 1 3;box 2 4;near 6;way 7;sort 0 comes 1;sort 1 comes 1");
+        x.size(0, 1, 1);
+        x.size(1, 1, 2);
+        x.size(2, 1, 3);
+        x.feed(0, 4);
+        x.seed(99);
+        x.row(0, 0, 0);
+        x.rule(5, 1, 1);
+        int[] due = {2, 1, 3, 4, 1, 2, 3, 4, 99, 2, 6, 7};
+        for (int i = 0; i < due.length; i++) {
+            due("status(" + i + ")", x.status(i), due[i]);
+        }
+        x.lost(7);
+        x.set(5, 0, 0);
+        x.value(0, 1);
+        x.go(0, 1);
+        x.copy(0, 1, 0, 0, 0);
+        x.go(1, 1);
+        x.back();
+        x.worth(0, 1);
+        x.size(0, 0, 0);
+        x.feast(50, 1);
+        for (int i = 0; i < 50; i++) {
+            x.feed(0, 4);
+        }
+        int[] refused = {1, 3, 2, 4, 1};
+        for (int i = 0; i < 5; i++) {
+            due("status(" + (12 + i) + ")", x.status(12 + i), refused[i]);
+        }
+        due("status(17)", x.status(17), NONE);
+        for (int far : FAR_OUT) {
+            due("status(far)", x.status(far), NONE);
+        }
+        due("that is not refused", x.status(12), 1);
+    }
+
+    public static void main(String[] args) {
+        promise1();
+        promise2();
+        promise3();
+        promise4();
+        promises5and6();
+        promise7();
+        promise8();
+        promise9();
+        promises10and12();
+        promise11();
+        promise13();
+        promises14and15();
+        promise16();
+        promise17();
+        promise18();
+        promise19();
+        promises20and21();
+        promises22and23();
+        promises24and25();
+        promise26();
+        promises27and28();
+        promise29();
+        promises30and31();
+        promises32and33();
+        promises34and35();
+        promises36and37();
+        promise38();
+        promises39to41();
+        promises42and43();
+        promise44();
+        Check.end("PromiseTest");
+    }
+}
