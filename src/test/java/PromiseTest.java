@@ -475,6 +475,9 @@ public final class PromiseTest {
         fault(x, "way\t1", 3);
         fault(x, "Way 1", 0);
         fault(x, "wayA 1", 3);
+        fault(x, "wayz 1", 0);
+        fault(x, "fox 0 3", 0);
+        fault(x, "tear 1", 0);
         fault(x, "7", 0);
         fault(x, "comes 7", 0);
         fault(x, "sort 0", 6);
@@ -710,6 +713,8 @@ public final class PromiseTest {
         ThreeSizes more = scarce();
         boxes(more, 0, 0, 2);
         due("keep both for large ones", more.keep(3), 2);
+        boxes(more, 0, 0, 4);
+        due("keep all four for large ones", more.keep(8), 4);
         Check.refused(x, "head of 25", () -> x.head(25), BAD);
         Check.refused(x, "keep of 25", () -> x.keep(25), BAD);
         for (int far : FAR_OUT) {
