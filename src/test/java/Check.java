@@ -1,11 +1,34 @@
+import java.util.Arrays;
 import java.util.function.LongSupplier;
+import java.util.function.Supplier;
+import java.util.function.ToLongFunction;
 
 /** Counts calls that answer something else than is due, and looks at all that an object tells. */
 final class Check {
+    static final int BAD = -2;
+    static final int OTHER = -3;
+    static final int NOTHING = -4;
+    static final int STUCK = -5;
+    static final int FULL = -6;
+    /** From here on down calls whose answers may be below 0 tell a refusal. */
+    static final long FAR = -1000000000000L;
+    static final long BELOW = -1000000;
+
     private static int done = 0;
     private static int wrong = 0;
+    private static String about = "";
+
+    /** A call with one number left open. */
+    interface Call {
+        long on(ThreeSizes x, int v);
+    }
 
     private Check() {
+    }
+
+    /** What is looked at from now on; told with what is wrong. */
+    static void about(String words) {
+        about = words + ": ";
     }
 
     static void due(String call, long got, long want) {
@@ -35,7 +58,7 @@ final class Check {
         int[] counts = refusals(x);
         due(call, what.getAsLong(), want);
         counts[-2 - number]++;
-        same(call + ": refusals", java.util.Arrays.toString(refusals(x)), java.util.Arrays.toString(counts));
+        same(call + ": refusals", Arrays.toString(refusals(x)), Arrays.toString(counts));
         same(call + ": all else", told(x), ahead);
     }
 
@@ -44,7 +67,54 @@ final class Check {
     }
 
     static void refusedFar(ThreeSizes x, String call, LongSupplier what, int number) {
-        refused(x, call, what, -1000000000000L + number, number);
+        refused(x, call, what, FAR + number, number);
+    }
+
+    /** The same on a new object, held against a twin to which the call was not made: THE TAPE and what is kept, too. */
+    static void refuses(Supplier<ThreeSizes> scene, String call, ToLongFunction<ThreeSizes> what, long below, int number) {
+        ThreeSizes x = scene.get();
+        ThreeSizes twin = scene.get();
+        due(call, what.applyAsLong(x), below + number);
+        int[] counts = refusals(twin);
+        counts[-2 - number]++;
+        same(call + ": refusals", Arrays.toString(refusals(x)), Arrays.toString(counts));
+        same(call + ": all else", told(x), told(twin));
+        same(call + ": the tape and what is kept", hidden(x), hidden(twin));
+    }
+
+    static void refuses(Supplier<ThreeSizes> scene, String call, ToLongFunction<ThreeSizes> what, int number) {
+        refuses(scene, call, what, 0, number);
+    }
+
+    /** The call is not refused, and changes nothing. */
+    static void onlyAsks(Supplier<ThreeSizes> scene, String call, ToLongFunction<ThreeSizes> what) {
+        ThreeSizes x = scene.get();
+        ThreeSizes twin = scene.get();
+        what.applyAsLong(x);
+        same(call + ": refusals", Arrays.toString(refusals(x)), Arrays.toString(refusals(twin)));
+        same(call + ": all else", told(x), told(twin));
+        same(call + ": the tape and what is kept", hidden(x), hidden(twin));
+    }
+
+    static void taken(Supplier<ThreeSizes> scene, String call, ToLongFunction<ThreeSizes> what) {
+        ThreeSizes x = scene.get();
+        int[] counts = refusals(x);
+        what.applyAsLong(x);
+        same(call + " is not refused", Arrays.toString(refusals(x)), Arrays.toString(counts));
+    }
+
+    /** The call takes the numbers from low to high; those on both sides of them and the farthest are BAD. */
+    static void bounds(Supplier<ThreeSizes> scene, String call, int low, int high, Call what, long below) {
+        for (int v : new int[] {low, high}) {
+            taken(scene, call + " by " + v, x -> what.on(x, v));
+        }
+        for (int v : new int[] {low - 1, high + 1, Integer.MIN_VALUE, Integer.MAX_VALUE}) {
+            refuses(scene, call + " by " + v, x -> what.on(x, v), below, BAD);
+        }
+    }
+
+    static void bounds(Supplier<ThreeSizes> scene, String call, int low, int high, Call what) {
+        bounds(scene, call, low, high, what, 0);
     }
 
     static int[] refusals(ThreeSizes x) {
@@ -57,6 +127,10 @@ final class Check {
 
     /** All that an object tells without a refusal, but THE TAPE's bytes and how many refusals there were. */
     static String told(ThreeSizes x) {
+        return toldOfWall(x) + toldOfShelves(x);
+    }
+
+    static String toldOfWall(ThreeSizes x) {
         StringBuilder all = new StringBuilder("status");
         for (int i = 0; i < 12; i++) {
             all.append(' ').append(x.status(i));
@@ -77,24 +151,42 @@ final class Check {
         for (int i = 0; i < 6; i++) {
             all.append(' ').append(x.day(i));
         }
+        return all.toString();
+    }
+
+    static String toldOfShelves(ThreeSizes x) {
+        StringBuilder all = new StringBuilder();
         for (int s = 0; s < 8; s++) {
             int held = x.holds(s);
             all.append(" shelf ").append(held);
             if (held >= 10) {
                 all.append(' ').append(x.says(s, 0));
             } else if (held >= 0) {
-                for (int i = 0; i < 40; i++) {
+                // no test's ROWS that are looked at so are longer, but for those of 40
+                for (int i = 0; i < 16; i++) {
                     all.append(' ').append(x.element(s, i));
                 }
+                all.append(' ').append(x.element(s, 39));
             }
         }
         return all.toString();
     }
 
-    /** Puts a text of signs below 256 on THE TAPE. */
+    /** What THE TAPE is read as, and what was kept; the object is of no use behind it. */
+    private static String hidden(ThreeSizes x) {
+        String read = "wall " + x.wall() + " " + toldOfWall(x);
+        return read + " back " + x.back() + " " + toldOfWall(x);
+    }
+
+    /** Puts a text of signs below 256 on THE TAPE, four at once: an object is used for 512 calls at most. */
     static void feed(ThreeSizes x, String text) {
-        for (int i = 0; i < text.length(); i++) {
-            x.feed(text.charAt(i), 1);
+        for (int i = 0; i < text.length(); i += 4) {
+            int n = Math.min(4, text.length() - i);
+            int v = 0;
+            for (int j = i; j < i + n; j++) {
+                v = v << 8 | text.charAt(j);
+            }
+            x.feed(v, n);
         }
     }
 
@@ -106,7 +198,7 @@ final class Check {
     private static void tell(String what) {
         wrong++;
         if (wrong <= 40) {
-            System.out.println(what);
+            System.out.println(about + what);
         }
     }
 

@@ -15,38 +15,6 @@ public final class PromiseTest {
         Check.due(call, got, want);
     }
 
-    /** A ROW of longs (SORT 3) in SHELF s. */
-    private static void fill(ThreeSizes x, int s, long... elements) {
-        x.row(s, 3, elements.length);
-        for (int i = 0; i < elements.length; i++) {
-            x.set(s, i, elements[i]);
-        }
-    }
-
-    private static void boxes(ThreeSizes x, int small, int middle, int large) {
-        x.size(0, 0, small);
-        x.size(1, 0, middle);
-        x.size(2, 0, large);
-    }
-
-    /** One small box, GOES 3; always a small parcel, worth 10, back 5. */
-    private static ThreeSizes oneBox() {
-        ThreeSizes x = new ThreeSizes();
-        boxes(x, 1, 0, 0);
-        x.sort(0, 100, 10, 5);
-        return x;
-    }
-
-    /** No small box, one large one that is never fetched; a small SORT worth 2 and a large one worth 50, half and half. */
-    private static ThreeSizes scarce() {
-        ThreeSizes x = new ThreeSizes();
-        boxes(x, 0, 0, 1);
-        x.size(2, 2, 0);
-        x.sort(0, 50, 2, 0);
-        x.sort(2, 50, 50, 0);
-        return x;
-    }
-
     private static void promise1() {
         ThreeSizes x = new ThreeSizes();
         int[] fresh = {0, 2, 2, 2, 0, 0, 0, 0, 1, 0, 0, 5, 0, 0, 0, 0, 0};
@@ -125,8 +93,8 @@ public final class PromiseTest {
 
     private static void promise4() {
         ThreeSizes x = new ThreeSizes();
-        fill(x, 0, 1, 2, 3, 4, 5, 6);
-        fill(x, 1, 7, 8, 9);
+        Scenes.fill(x, 0, 1, 2, 3, 4, 5, 6);
+        Scenes.fill(x, 1, 7, 8, 9);
         due("copy", x.copy(0, 1, 3, 1, 2), 2);
         due("left alone", x.element(1, 0), 7);
         due("copied", x.element(1, 1), 4);
@@ -164,7 +132,7 @@ public final class PromiseTest {
 
     private static void promises5and6() {
         ThreeSizes x = new ThreeSizes();
-        fill(x, 0, 11, 12);
+        Scenes.fill(x, 0, 11, 12);
         x.rule(1, 5, 3);
         due("element", x.element(0, 1), 12);
         due("element behind the end", x.element(0, 2), 0);
@@ -330,7 +298,7 @@ public final class PromiseTest {
 
     private static void promise11() {
         ThreeSizes x = new ThreeSizes();
-        fill(x, 0, 1, 20, 30, 4, 2, 40, 9, 0, 0, 41, 1, 1, 0, 1, 1, 1);
+        Scenes.fill(x, 0, 1, 20, 30, 4, 2, 40, 9, 0, 0, 41, 1, 1, 0, 1, 1, 1);
         due("none wanted", x.sorts(0, 0), 0);
         due("two and one that passes 100", x.sorts(0, 16), 2);
         due("nothing was refused", x.status(12) + x.status(15) + x.status(16), 0);
@@ -339,16 +307,16 @@ public final class PromiseTest {
         due("comes", x.sortOf(1, 1), 40);
         due("worth", x.sortOf(0, 2), 30);
         due("back", x.sortOf(0, 3), 4);
-        fill(x, 1, 0, 0, 1, 0, 0, 0, 1, 0, 0, 0, 1, 0, 0, 0, 1, 0, 0, 0, 1, 0);
+        Scenes.fill(x, 1, 0, 0, 1, 0, 0, 0, 1, 0, 0, 0, 1, 0, 0, 0, 1, 0, 0, 0, 1, 0);
         due("until there is no room", x.sorts(1, 20), 4);
         due("no room", x.sorts(1, 4), 0);
         due("FULL is not counted", x.status(16), 0);
         ThreeSizes y = new ThreeSizes();
-        fill(y, 0, 4294967296L, 1, 1, 1);
+        Scenes.fill(y, 0, 4294967296L, 1, 1, 1);
         due("a long that is no size", y.sorts(0, 4), 0);
-        fill(y, 0, 0, 1, 4294967297L, 1);
+        Scenes.fill(y, 0, 0, 1, 4294967297L, 1);
         due("a long that is no worth", y.sorts(0, 4), 0);
-        fill(y, 0, 0, 1, 1, 1, 0, 1, 0, 1, 0, 1, 1, 1);
+        Scenes.fill(y, 0, 0, 1, 1, 1, 0, 1, 0, 1, 0, 1, 1, 1);
         due("behind a bad one none comes", y.sorts(0, 12), 1);
         due("only the first n", y.sorts(0, 4), 1);
         y.row(1, 4, 4);
@@ -508,7 +476,7 @@ public final class PromiseTest {
 
     private static void promise17() {
         ThreeSizes x = new ThreeSizes();
-        boxes(x, 4, 3, 2);
+        Scenes.boxes(x, 4, 3, 2);
         x.size(0, 1, 1);
         x.size(1, 1, 3);
         due("free", x.state(0), 5);
@@ -522,7 +490,7 @@ public final class PromiseTest {
 
     private static void promise18() {
         ThreeSizes x = new ThreeSizes();
-        boxes(x, 4, 4, 3);
+        Scenes.boxes(x, 4, 4, 3);
         for (int size = 0; size < 3; size++) {
             x.sort(size, 10, 10 + size, 5);
         }
@@ -551,7 +519,7 @@ public final class PromiseTest {
                 due("gets(" + s + ", " + c[0] + ", " + c[1] + ")", x.gets(s, c[0], c[1]), c[1 + s]);
             }
         }
-        ThreeSizes y = scarce();
+        ThreeSizes y = Scenes.scarce();
         y.rule(0, 6, 0);
         y.rule(1, 6, 1);
         due("WISE of no hours takes it", y.gets(0, 0, 25), 2);
@@ -593,7 +561,7 @@ public final class PromiseTest {
     }
 
     private static void promises20and21() {
-        ThreeSizes x = oneBox();
+        ThreeSizes x = Scenes.oneBox();
         x.rule(0, 1, 0);
         x.rule(1, 3, 11);
         long[] best = {0, 10000000, 9500000, 9000000};
@@ -609,7 +577,7 @@ public final class PromiseTest {
         x.size(0, 2, 0);
         due("full: never fetched", x.best(24), -120000000);
         cuts();
-        ThreeSizes z = scarce();
+        ThreeSizes z = Scenes.scarce();
         z.rule(0, 1, 0);
         z.rule(1, 6, 1);
         due("the small one takes it", z.value(0, 1), 26000000);
@@ -634,7 +602,7 @@ public final class PromiseTest {
     /** One small box, FULL; one SORT comes by 1 of 100: what is cut, and toward 0. */
     private static void cuts() {
         ThreeSizes x = new ThreeSizes();
-        boxes(x, 1, 0, 0);
+        Scenes.boxes(x, 1, 0, 0);
         x.size(0, 1, 1);
         x.sort(0, 1, 1, 0);
         due("one hour", x.best(1), 3000);
@@ -643,7 +611,7 @@ public final class PromiseTest {
         // 3/10 * (1/100 * 1,008,079 + 99/100 * 19,930) + 7/10 * 8,079 = 14,598.747
         due("three hours, cut", x.best(3), 14598);
         ThreeSizes y = new ThreeSizes();
-        boxes(y, 1, 0, 0);
+        Scenes.boxes(y, 1, 0, 0);
         y.size(0, 1, 1);
         y.sort(0, 1, 1, 99);
         y.rule(0, 1, 0);
@@ -655,7 +623,7 @@ public final class PromiseTest {
     }
 
     private static void promises22and23() {
-        ThreeSizes x = scarce();
+        ThreeSizes x = Scenes.scarce();
         due("now takes it", x.now(0, 0), 2);
         due("now leaves it", x.now(0, 1), NONE);
         due("now for what is worth it", x.now(1, 24), 2);
@@ -664,7 +632,7 @@ public final class PromiseTest {
         ThreeSizes y = new ThreeSizes();
         y.sort(0, 10, 10, 5);
         due("of several the least", y.now(0, 0), 0);
-        ThreeSizes z = scarce();
+        ThreeSizes z = Scenes.scarce();
         z.rule(0, 1, 0);
         z.rule(1, 6, 24);
         due("gap of two hours", z.gap(0, 2), 12000000);
@@ -687,7 +655,7 @@ public final class PromiseTest {
     }
 
     private static void promises24and25() {
-        ThreeSizes x = scarce();
+        ThreeSizes x = Scenes.scarce();
         Check.refused(x, "no rule", () -> x.head(1), STUCK);
         x.row(0, 0, 4);
         Check.refused(x, "a row alone", () -> x.head(1), STUCK);
@@ -704,16 +672,16 @@ public final class PromiseTest {
         due("keep of two hours", x.keep(2), 1);
         due("keep of no hours", x.keep(0), 0);
         ThreeSizes lossy = new ThreeSizes();
-        boxes(lossy, 0, 0, 0);
+        Scenes.boxes(lossy, 0, 0, 0);
         lossy.sort(0, 100, 10, 5);
         lossy.rule(3, 1, 0);
         due("all below 0: still the first", lossy.head(5), 3);
         due("all below 0: still the least", lossy.keep(5), 0);
         // two boxes, three HOURS: 52 by 0, 63.5 by 1, 68.75 by 2 and more
-        ThreeSizes more = scarce();
-        boxes(more, 0, 0, 2);
+        ThreeSizes more = Scenes.scarce();
+        Scenes.boxes(more, 0, 0, 2);
         due("keep both for large ones", more.keep(3), 2);
-        boxes(more, 0, 0, 4);
+        Scenes.boxes(more, 0, 0, 4);
         due("keep all four for large ones", more.keep(8), 4);
         Check.refused(x, "head of 25", () -> x.head(25), BAD);
         Check.refused(x, "keep of 25", () -> x.keep(25), BAD);
@@ -724,10 +692,10 @@ public final class PromiseTest {
     }
 
     private static void promise26() {
-        ThreeSizes x = scarce();
-        boxes(x, 0, 1, 1);
+        ThreeSizes x = Scenes.scarce();
+        Scenes.boxes(x, 0, 1, 1);
         x.size(1, 2, 0);
-        fill(x, 0, 0, 1, 0, 1, 7);
+        Scenes.fill(x, 0, 0, 1, 0, 1, 7);
         due("cart of none", x.cart(0, 0, 0, NONE), 0);
         due("cart of none with an hour", x.cart(0, 0, 1, NONE), x.best(1));
         due("cart of two", x.cart(0, 2, 0, NONE), 52000000);
@@ -755,7 +723,7 @@ public final class PromiseTest {
         Check.refusedFar(x, "fewer elements", () -> x.cart(0, 6, 0, NONE), BAD);
         Check.refusedFar(x, "cart by a rule", () -> x.cart(1, 6, 0, NONE), OTHER);
         Check.refusedFar(x, "cart by nothing", () -> x.cart(2, 6, 0, NONE), NOTHING);
-        fill(x, 4, 4294967296L, -1);
+        Scenes.fill(x, 4, 4294967296L, -1);
         Check.refusedFar(x, "a long that is no sort", () -> x.cart(4, 1, 0, NONE), BAD);
         for (int far : FAR_OUT) {
             Check.refusedFar(x, "cart(far, ..)", () -> x.cart(far, 1, 1, 0), BAD);
@@ -769,15 +737,15 @@ public final class PromiseTest {
 
     private static void promises27and28() {
         ThreeSizes x = new ThreeSizes();
-        boxes(x, 1, 1, 2);
+        Scenes.boxes(x, 1, 1, 2);
         for (int size = 0; size < 3; size++) {
             x.sort(size, 10, 10, 5);
         }
-        fill(x, 0, 0, 1, 2, 0, 1, 2, 9);
-        fill(x, 1, 0, 1, 2, 2, 2, -1);
+        Scenes.fill(x, 0, 0, 1, 2, 0, 1, 2, 9);
+        Scenes.fill(x, 1, 0, 1, 2, 2, 2, -1);
         due("judge", x.judge(0, 1, 4), NONE);
         due("no free box any more", x.judge(0, 1, 5), 4);
-        fill(x, 2, 4294967296L, 0, 2);
+        Scenes.fill(x, 2, 4294967296L, 0, 2);
         due("does not fit", x.judge(0, 2, 3), 1);
         due("others than 0 to 2 are none", x.judge(0, 2, 1), NONE);
         due("judge of none", x.judge(0, 2, 0), NONE);
@@ -808,7 +776,7 @@ public final class PromiseTest {
         due("full middle", x.status(5), 1);
         due("full large", x.status(6), 2);
         due("not in truth", x.day(1), 0);
-        fill(x, 5, 3, -1, 0);
+        Scenes.fill(x, 5, 3, -1, 0);
         due("put in none", x.put(0, 5, 2), 0);
         due("now it is wrong", x.judge(0, 5, 3), 2);
         due("all full", x.state(0), 0);
@@ -850,7 +818,7 @@ public final class PromiseTest {
     }
 
     private static void promises30and31() {
-        ThreeSizes x = oneBox();
+        ThreeSizes x = Scenes.oneBox();
         due("the only box", x.worth(0, 1), 15000000);
         due("the only box, two hours", x.worth(0, 2), 9500000 + 10000000);
         due("its price: it could be fetched", x.price(0, 1), 10500000);
@@ -875,7 +843,7 @@ public final class PromiseTest {
     }
 
     private static void promises32and33() {
-        ThreeSizes x = scarce();
+        ThreeSizes x = Scenes.scarce();
         due("the small one brings", x.brings(0, 1), 1000000);
         due("the large one brings", x.brings(1, 1), 25000000);
         due("of two hours", x.brings(0, 2), 38000000 - 37500000);
@@ -908,12 +876,12 @@ public final class PromiseTest {
         x.size(1, 2, 10);
         due("a middle one fetched at once: all alike", x.worst(1), 0);
         due("as it was", x.state(2), 62);
-        ThreeSizes y = oneBox();
+        ThreeSizes y = Scenes.oneBox();
         y.size(0, 1, 0);
         due("worst", y.worst(2), 0);
         Check.refused(x, "worst of 25 hours", () -> x.worst(25), BAD);
         ThreeSizes b = new ThreeSizes();
-        boxes(b, 0, 0, 1);
+        Scenes.boxes(b, 0, 0, 1);
         b.sort(0, 100, 10, 5);
         b.size(2, 2, 0);
         b.size(0, 2, 0);
@@ -927,7 +895,7 @@ public final class PromiseTest {
         due("two of the four are full", b.board(4), 10000000 - -5000000);
         ThreeSizes c = new ThreeSizes();
         c.sort(2, 100, 10, 5);
-        boxes(c, 4, 0, 1);
+        Scenes.boxes(c, 4, 0, 1);
         due("a large one is missed", c.board(1), -15000000);
         due("as it was", c.status(1) * 10 + c.status(3), 41);
         c.size(2, 1, 1);
@@ -940,7 +908,7 @@ public final class PromiseTest {
     }
 
     private static void promises36and37() {
-        ThreeSizes x = oneBox();
+        ThreeSizes x = Scenes.oneBox();
         due("nothing to be fetched", x.letter(0, 1), 0);
         due("for whom", x.whom(1), NONE);
         x.size(0, 1, 1);
@@ -956,7 +924,7 @@ public final class PromiseTest {
         due("as it was", x.size(0, 2, 10), 10);
         ThreeSizes y = new ThreeSizes();
         y.sort(0, 100, 10, 5);
-        boxes(y, 0, 1, 1);
+        Scenes.boxes(y, 0, 1, 1);
         y.size(1, 1, 1);
         y.size(2, 1, 1);
         due("of several the least", y.whom(1), 1);
@@ -967,7 +935,7 @@ public final class PromiseTest {
         due("for the one that brings most", y.whom(1), 2);
         ThreeSizes z = new ThreeSizes();
         z.sort(2, 100, 10, 5);
-        boxes(z, 1, 1, 1);
+        Scenes.boxes(z, 1, 1, 1);
         z.size(0, 1, 1);
         z.size(2, 1, 1);
         due("a small one is of no use", z.letter(0, 1), 0);
@@ -1003,11 +971,6 @@ public final class PromiseTest {
         }
     }
 
-    private static int drawn(int[] seed, int below) {
-        seed[0] = seed[0] * 1103515245 + 12345;
-        return (seed[0] >>> 16) % below;
-    }
-
     private static void promises39to41() {
         ThreeSizes x = new ThreeSizes();
         x.rule(0, 1, 0);
@@ -1016,7 +979,7 @@ public final class PromiseTest {
         due("the seed ahead", x.seed(-5), 1);
         due("hours", x.day(0), 1);
         // a parcel that comes for sure and never fits: two draws an hour
-        boxes(x, 0, 0, 0);
+        Scenes.boxes(x, 0, 0, 0);
         x.sort(1, 100, 9, 4);
         x.ask(0, 5);
         x.ask(1, 20);
@@ -1024,8 +987,8 @@ public final class PromiseTest {
         int sum = 0;
         int near = 0;
         for (int hour = 0; hour < 200; hour++) {
-            drawn(seed, 100);
-            boolean isNear = drawn(seed, 10) < 5;
+            Scenes.drawn(seed, 100);
+            boolean isNear = Scenes.drawn(seed, 10) < 5;
             near += isNear ? 1 : 0;
             sum += isNear ? 9 - 20 : -4;
         }
@@ -1055,7 +1018,7 @@ public final class PromiseTest {
     /** Two sorts for the small and the large boxes, both sizes fetched; the same hours once more, drawn here. */
     private static void promise39WithBoxes() {
         ThreeSizes x = new ThreeSizes();
-        boxes(x, 1, 0, 1);
+        Scenes.boxes(x, 1, 0, 1);
         x.size(0, 2, 4);
         x.size(2, 2, 6);
         x.sort(0, 35, 3, 1);
@@ -1068,19 +1031,19 @@ public final class PromiseTest {
         boolean small = false;
         boolean large = false;
         for (int hour = 0; hour < 150; hour++) {
-            if (small && drawn(seed, 10) < 4) {
+            if (small && Scenes.drawn(seed, 10) < 4) {
                 small = false;
                 fetched++;
             }
-            if (large && drawn(seed, 10) < 6) {
+            if (large && Scenes.drawn(seed, 10) < 6) {
                 large = false;
                 fetched++;
             }
-            int came = drawn(seed, 100);
+            int came = Scenes.drawn(seed, 100);
             if (came < 75) {
                 boolean first = came < 35;
                 if (first ? small : large) {
-                    drawn(seed, 10);
+                    Scenes.drawn(seed, 10);
                     sum -= first ? 1 : 2;
                 } else {
                     small |= first;
