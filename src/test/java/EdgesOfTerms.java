@@ -118,23 +118,33 @@ final class EdgesOfTerms {
         always.rule(0, 1, 0);
         always.go(0, 200);
         due("COMES 100: one an HOUR", always.day(1) + always.day(2) + always.day(3), 200);
-        Doc.quote(Doc.TERMS, "of all SORTS together 100 at most), a WORTH (1 to 99) if it gets a box, BACK (0 to 99) that it costs if it goes back.");
-        Check.bounds(ThreeSizes::new, "sort(0, 1, v, 1)", 1, 99, (x, v) -> x.sort(0, 1, v, 1));
-        Check.bounds(ThreeSizes::new, "sort(0, 1, 1, v)", 0, 99, (x, v) -> x.sort(0, 1, 1, v));
+    }
+
+    private static void together() {
+        Doc.quote(Doc.TERMS, "of all SORTS together 100 at most),");
         ThreeSizes x = new ThreeSizes();
         due("99 hundredths", x.sort(0, 99, 1, 1), 0);
         due("101 together", x.sort(0, 2, 1, 1), Check.STUCK);
         due("100 together", x.sort(0, 1, 1, 1), 1);
         due("101 together", x.sort(0, 1, 1, 1), Check.STUCK);
         due("still 100 together", x.sort(0, 0, 1, 1), 2);
+    }
+
+    private static void worthAndBack() {
+        Doc.quote(Doc.TERMS, "a WORTH (1 to 99) if it gets a box,");
+        Check.bounds(ThreeSizes::new, "sort(0, 1, v, 1)", 1, 99, (x, v) -> x.sort(0, 1, v, 1));
         for (int worth : new int[] {1, 99}) {
-            for (int back : new int[] {0, 99}) {
-                ThreeSizes y = new ThreeSizes();
-                y.sort(0, 100, worth, back);
-                due("it gets a box", y.best(1), 1000000L * worth);
-                Scenes.boxes(y, 0, 0, 0);
-                due("it goes back", y.best(1), -1000000L * back);
-            }
+            ThreeSizes x = new ThreeSizes();
+            x.sort(0, 100, worth, 50);
+            due("it gets a box", x.best(1), 1000000L * worth);
+        }
+        Doc.quote(Doc.TERMS, "BACK (0 to 99) that it costs if it goes back.");
+        Check.bounds(ThreeSizes::new, "sort(0, 1, 1, v)", 0, 99, (x, v) -> x.sort(0, 1, 1, v));
+        for (int back : new int[] {0, 99}) {
+            ThreeSizes x = new ThreeSizes();
+            Scenes.boxes(x, 0, 0, 0);
+            x.sort(0, 100, 50, back);
+            due("it goes back", x.best(1), -1000000L * back);
         }
     }
 
@@ -288,6 +298,8 @@ final class EdgesOfTerms {
         oneAnHour();
         sorts();
         numbersOfSorts();
+        together();
+        worthAndBack();
         fits();
         near();
         shelves();

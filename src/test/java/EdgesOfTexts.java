@@ -139,7 +139,7 @@ final class EdgesOfTexts {
     }
 
     private static void sort() {
-        Doc.quote(Doc.TERMS, "sort S comes N, perhaps worth N, then perhaps back N (10, 5 if not told), near N, way N.");
+        Doc.quote(Doc.TERMS, "sort S comes N, perhaps worth N, then perhaps back N (10, 5 if not told),");
         sortIs(read("sort 0 comes 0", 1), 2, 0, 0, 10, 5);
         sortIs(read("sort 2 comes 50 worth 1", 1), 2, 2, 50, 1, 5);
         sortIs(read("sort 2 comes 50 worth 99", 1), 2, 2, 50, 99, 5);
@@ -155,10 +155,15 @@ final class EdgesOfTexts {
         fault("sort 0 comes 1 back 9 back 9", 22);
         fault("sort 0 worth 8", 7);
         fault("sort comes 1", 5);
+    }
+
+    private static void nearAndWay() {
+        Doc.quote(Doc.TERMS, "near N,");
         for (int v : new int[] {0, 10}) {
             due("NEAR", read("near " + v, 1).status(10), v);
         }
         fault("near 11", 5);
+        Doc.quote(Doc.TERMS, "way N.");
         for (int v : new int[] {0, 99}) {
             due("WAY", read("way " + v, 1).status(11), v);
         }
@@ -327,6 +332,7 @@ final class EdgesOfTexts {
         box();
         goes();
         sort();
+        nearAndWay();
         allOrNothing();
         firstToken();
         eachToken();
