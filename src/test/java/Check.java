@@ -1,5 +1,4 @@
 import java.util.Arrays;
-import java.util.function.LongSupplier;
 import java.util.function.Supplier;
 import java.util.function.ToLongFunction;
 
@@ -52,25 +51,10 @@ final class Check {
         }
     }
 
-    /** The call answers want, and nothing changes but how many refusals of that number (-2 to -6) there were. */
-    static void refused(ThreeSizes x, String call, LongSupplier what, long want, int number) {
-        String ahead = told(x);
-        int[] counts = refusals(x);
-        due(call, what.getAsLong(), want);
-        counts[-2 - number]++;
-        same(call + ": refusals", Arrays.toString(refusals(x)), Arrays.toString(counts));
-        same(call + ": all else", told(x), ahead);
-    }
-
-    static void refused(ThreeSizes x, String call, LongSupplier what, int number) {
-        refused(x, call, what, number, number);
-    }
-
-    static void refusedFar(ThreeSizes x, String call, LongSupplier what, int number) {
-        refused(x, call, what, FAR + number, number);
-    }
-
-    /** The same on a new object, held against a twin to which the call was not made: THE TAPE and what is kept, too. */
+    /**
+     * The call is refused, and nothing changes but how many refusals of that number (-2 to -6) there were: the object is
+     * held against a twin to which the call was not made, THE TAPE and what is kept, too.
+     */
     static void refuses(Supplier<ThreeSizes> scene, String call, ToLongFunction<ThreeSizes> what, long below, int number) {
         ThreeSizes x = scene.get();
         ThreeSizes twin = scene.get();

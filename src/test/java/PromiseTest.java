@@ -1,3 +1,5 @@
+import java.util.function.Supplier;
+
 /** Promise by promise: answers worked out by hand from the document, its edges, and what is refused. */
 public final class PromiseTest {
     private static final int NONE = ThreeSizes.NONE;
@@ -7,6 +9,8 @@ public final class PromiseTest {
     private static final int STUCK = -5;
     private static final int FULL = -6;
     private static final int[] FAR_OUT = {-1, Integer.MIN_VALUE, Integer.MAX_VALUE};
+    /** The a of each KIND, 1 on, in rulesOfAllKinds(). */
+    private static final int[] BY = {0, 1, 11, 0, 0, 33};
 
     private PromiseTest() {
     }
@@ -36,6 +40,16 @@ public final class PromiseTest {
         due("objects are apart", x.status(0), 0);
     }
 
+    /** SHELVES 0 to 4: a ROW of 14 of each SORT; 6: a LEAST. */
+    private static ThreeSizes rowsOfAllSorts() {
+        ThreeSizes x = new ThreeSizes();
+        for (int sort = 0; sort < 5; sort++) {
+            Scenes.row(x, sort, sort, 0, 1, 2, 3, 4, 5, 6, 7, 8, 9, 10, 11, 12, 13);
+        }
+        x.rule(6, 1, 0);
+        return x;
+    }
+
     private static void promise2() {
         ThreeSizes x = new ThreeSizes();
         for (int sort = 0; sort < 5; sort++) {
@@ -52,13 +66,13 @@ public final class PromiseTest {
         x.rule(3, 1, 0);
         due("a row over a rule", x.row(3, 2, 1), 1);
         due("holds it", x.holds(3), 2);
-        Check.refused(x, "row(8, 0, 1)", () -> x.row(8, 0, 1), BAD);
-        Check.refused(x, "row(0, 5, 1)", () -> x.row(0, 5, 1), BAD);
-        Check.refused(x, "row(0, 0, 41)", () -> x.row(0, 0, 41), BAD);
+        Check.refuses(PromiseTest::rowsOfAllSorts, "row(8, 0, 1)", o -> o.row(8, 0, 1), BAD);
+        Check.refuses(PromiseTest::rowsOfAllSorts, "row(0, 5, 1)", o -> o.row(0, 5, 1), BAD);
+        Check.refuses(PromiseTest::rowsOfAllSorts, "row(0, 0, 41)", o -> o.row(0, 0, 41), BAD);
         for (int far : FAR_OUT) {
-            Check.refused(x, "row(far, 0, 1)", () -> x.row(far, 0, 1), BAD);
-            Check.refused(x, "row(0, far, 1)", () -> x.row(0, far, 1), BAD);
-            Check.refused(x, "row(0, 0, far)", () -> x.row(0, 0, far), BAD);
+            Check.refuses(PromiseTest::rowsOfAllSorts, "row(far, 0, 1)", o -> o.row(far, 0, 1), BAD);
+            Check.refuses(PromiseTest::rowsOfAllSorts, "row(0, far, 1)", o -> o.row(0, far, 1), BAD);
+            Check.refuses(PromiseTest::rowsOfAllSorts, "row(0, 0, far)", o -> o.row(0, 0, far), BAD);
         }
     }
 
@@ -80,21 +94,28 @@ public final class PromiseTest {
         }
         x.set(4, 1, 0);
         due("a boolean not so again", x.element(4, 1), 0);
-        x.rule(6, 1, 0);
-        Check.refused(x, "set in no shelf", () -> x.set(8, 0, 1), BAD);
-        Check.refused(x, "set in a rule", () -> x.set(6, -1, 1), OTHER);
-        Check.refused(x, "set in nothing", () -> x.set(7, -1, 1), NOTHING);
-        Check.refused(x, "set behind the end", () -> x.set(0, put.length, 1), BAD);
+        Check.refuses(PromiseTest::rowsOfAllSorts, "set in no shelf", o -> o.set(8, 0, 1), BAD);
+        Check.refuses(PromiseTest::rowsOfAllSorts, "set in a rule", o -> o.set(6, -1, 1), OTHER);
+        Check.refuses(PromiseTest::rowsOfAllSorts, "set in nothing", o -> o.set(7, -1, 1), NOTHING);
+        Check.refuses(PromiseTest::rowsOfAllSorts, "set behind the end", o -> o.set(0, 14, 1), BAD);
         for (int far : FAR_OUT) {
-            Check.refused(x, "set(far, 0, 1)", () -> x.set(far, 0, 1), BAD);
-            Check.refused(x, "set(0, far, 1)", () -> x.set(0, far, 1), BAD);
+            Check.refuses(PromiseTest::rowsOfAllSorts, "set(far, 0, 1)", o -> o.set(far, 0, 1), BAD);
+            Check.refuses(PromiseTest::rowsOfAllSorts, "set(0, far, 1)", o -> o.set(0, far, 1), BAD);
         }
     }
 
-    private static void promise4() {
+    /** SHELVES 0 and 1: longs, six and three; 2: six ints; 3: a LEAST. */
+    private static ThreeSizes rowsToCopy() {
         ThreeSizes x = new ThreeSizes();
         Scenes.fill(x, 0, 1, 2, 3, 4, 5, 6);
         Scenes.fill(x, 1, 7, 8, 9);
+        x.row(2, 2, 6);
+        x.rule(3, 1, 0);
+        return x;
+    }
+
+    private static void promise4() {
+        ThreeSizes x = rowsToCopy();
         due("copy", x.copy(0, 1, 3, 1, 2), 2);
         due("left alone", x.element(1, 0), 7);
         due("copied", x.element(1, 1), 4);
@@ -108,25 +129,23 @@ public final class PromiseTest {
         due("as they were, down", x.element(0, 3), 5);
         due("copy none at the end", x.copy(0, 1, 6, 3, 0), 0);
         due("copy all", x.copy(1, 0, 0, 3, 3), 3);
-        x.row(2, 2, 6);
-        x.rule(3, 1, 0);
-        Check.refused(x, "copy from no shelf", () -> x.copy(8, 3, 0, 0, 0), BAD);
-        Check.refused(x, "copy to no shelf", () -> x.copy(3, -1, 0, 0, 0), BAD);
-        Check.refused(x, "copy to a rule, from nothing", () -> x.copy(4, 3, 0, 0, -1), OTHER);
-        Check.refused(x, "copy from a rule, to nothing", () -> x.copy(3, 4, 0, 0, -1), OTHER);
-        Check.refused(x, "copy longs to ints", () -> x.copy(0, 2, 0, 0, -1), OTHER);
-        Check.refused(x, "copy from nothing", () -> x.copy(4, 0, 0, 0, -1), NOTHING);
-        Check.refused(x, "copy to nothing", () -> x.copy(0, 4, 0, 0, -1), NOTHING);
-        Check.refused(x, "copy from nothing to nothing", () -> x.copy(4, 4, 0, 0, 0), NOTHING);
-        Check.refused(x, "copy too many", () -> x.copy(0, 0, 0, 0, 7), BAD);
-        Check.refused(x, "copy over p's end", () -> x.copy(0, 1, 4, 0, 3), BAD);
-        Check.refused(x, "copy over q's end", () -> x.copy(0, 1, 0, 2, 2), BAD);
-        Check.refused(x, "copy none from behind the end", () -> x.copy(0, 1, 7, 0, 0), BAD);
-        Check.refused(x, "copy none to behind the end", () -> x.copy(0, 1, 0, 4, 0), BAD);
+        Check.refuses(PromiseTest::rowsToCopy, "copy from no shelf", o -> o.copy(8, 3, 0, 0, 0), BAD);
+        Check.refuses(PromiseTest::rowsToCopy, "copy to no shelf", o -> o.copy(3, -1, 0, 0, 0), BAD);
+        Check.refuses(PromiseTest::rowsToCopy, "copy to a rule, from nothing", o -> o.copy(4, 3, 0, 0, -1), OTHER);
+        Check.refuses(PromiseTest::rowsToCopy, "copy from a rule, to nothing", o -> o.copy(3, 4, 0, 0, -1), OTHER);
+        Check.refuses(PromiseTest::rowsToCopy, "copy longs to ints", o -> o.copy(0, 2, 0, 0, -1), OTHER);
+        Check.refuses(PromiseTest::rowsToCopy, "copy from nothing", o -> o.copy(4, 0, 0, 0, -1), NOTHING);
+        Check.refuses(PromiseTest::rowsToCopy, "copy to nothing", o -> o.copy(0, 4, 0, 0, -1), NOTHING);
+        Check.refuses(PromiseTest::rowsToCopy, "copy from nothing to nothing", o -> o.copy(4, 4, 0, 0, 0), NOTHING);
+        Check.refuses(PromiseTest::rowsToCopy, "copy too many", o -> o.copy(0, 0, 0, 0, 7), BAD);
+        Check.refuses(PromiseTest::rowsToCopy, "copy over p's end", o -> o.copy(0, 1, 4, 0, 3), BAD);
+        Check.refuses(PromiseTest::rowsToCopy, "copy over q's end", o -> o.copy(0, 1, 0, 2, 2), BAD);
+        Check.refuses(PromiseTest::rowsToCopy, "copy none from behind the end", o -> o.copy(0, 1, 7, 0, 0), BAD);
+        Check.refuses(PromiseTest::rowsToCopy, "copy none to behind the end", o -> o.copy(0, 1, 0, 4, 0), BAD);
         for (int far : FAR_OUT) {
-            Check.refused(x, "copy from far", () -> x.copy(0, 1, far, 0, 1), BAD);
-            Check.refused(x, "copy to far", () -> x.copy(0, 1, 0, far, 1), BAD);
-            Check.refused(x, "copy far many", () -> x.copy(0, 1, 1, 1, far), BAD);
+            Check.refuses(PromiseTest::rowsToCopy, "copy from far", o -> o.copy(0, 1, far, 0, 1), BAD);
+            Check.refuses(PromiseTest::rowsToCopy, "copy to far", o -> o.copy(0, 1, 0, far, 1), BAD);
+            Check.refuses(PromiseTest::rowsToCopy, "copy far many", o -> o.copy(0, 1, 1, 1, far), BAD);
         }
     }
 
@@ -155,6 +174,14 @@ public final class PromiseTest {
         due("shelves in use", x.status(9), 3);
     }
 
+    private static ThreeSizes rulesAndARow() {
+        ThreeSizes x = new ThreeSizes();
+        x.rule(0, 2, 3);
+        Scenes.fill(x, 1, 8);
+        x.rule(7, 6, 99);
+        return x;
+    }
+
     private static void promise7() {
         ThreeSizes x = new ThreeSizes();
         due("rule(0, 1, 0)", x.rule(0, 1, 0), 1);
@@ -163,19 +190,39 @@ public final class PromiseTest {
         x.row(0, 0, 1);
         due("a rule over a row", x.rule(0, 2, 3), 1);
         due("holds it", x.holds(0), 12);
-        Check.refused(x, "rule(8, 1, 0)", () -> x.rule(8, 1, 0), BAD);
-        Check.refused(x, "rule(0, 0, 0)", () -> x.rule(0, 0, 0), BAD);
-        Check.refused(x, "rule(0, 7, 0)", () -> x.rule(0, 7, 0), BAD);
-        Check.refused(x, "rule(0, 1, 100)", () -> x.rule(0, 1, 100), BAD);
+        Check.refuses(PromiseTest::rulesAndARow, "rule(8, 1, 0)", o -> o.rule(8, 1, 0), BAD);
+        Check.refuses(PromiseTest::rulesAndARow, "rule(0, 0, 0)", o -> o.rule(0, 0, 0), BAD);
+        Check.refuses(PromiseTest::rulesAndARow, "rule(0, 7, 0)", o -> o.rule(0, 7, 0), BAD);
+        Check.refuses(PromiseTest::rulesAndARow, "rule(0, 1, 100)", o -> o.rule(0, 1, 100), BAD);
         for (int far : FAR_OUT) {
-            Check.refused(x, "rule(far, 1, 0)", () -> x.rule(far, 1, 0), BAD);
-            Check.refused(x, "rule(0, far, 0)", () -> x.rule(0, far, 0), BAD);
-            Check.refused(x, "rule(0, 1, far)", () -> x.rule(0, 1, far), BAD);
+            Check.refuses(PromiseTest::rulesAndARow, "rule(far, 1, 0)", o -> o.rule(far, 1, 0), BAD);
+            Check.refuses(PromiseTest::rulesAndARow, "rule(0, far, 0)", o -> o.rule(0, far, 0), BAD);
+            Check.refuses(PromiseTest::rulesAndARow, "rule(0, 1, far)", o -> o.rule(0, 1, far), BAD);
         }
     }
 
-    private static void promise8() {
+    /** RULES of all KINDS, each in the SHELF of its KIND; 7: a ROW; one small SORT; FREE 0 1 2. */
+    private static ThreeSizes rulesOfAllKinds() {
         ThreeSizes x = new ThreeSizes();
+        x.sort(0, 10, 10, 5);
+        Scenes.full(x, 2, 1, 0);
+        for (int kind = 1; kind <= 6; kind++) {
+            x.rule(kind, kind, BY[kind - 1]);
+        }
+        x.row(7, 0, 1);
+        return x;
+    }
+
+    private static ThreeSizes rulesWithNoSort() {
+        ThreeSizes x = new ThreeSizes();
+        for (int kind = 1; kind <= 6; kind++) {
+            x.rule(kind, kind, 7);
+        }
+        return x;
+    }
+
+    private static void promise8() {
+        ThreeSizes x = rulesOfAllKinds();
         boolean[][] isOf = {
             {true, true, false, false, false, false, false}, // LEAST
             {true, true, true, false, false, false, false}, // KEEP
@@ -183,22 +230,17 @@ public final class PromiseTest {
             {true, false, false, false, true, false, false}, // GREAT
             {true, false, false, false, true, true, false}, // EVEN
             {true, false, false, false, false, false, true}}; // WISE
-        x.sort(0, 10, 10, 5);
         // FREE 0 1 2: a LEAST gives 1, a KEEP by 1 gives 2, a SOME by 11 none, GREAT and EVEN 2
-        x.size(0, 1, 2);
-        x.size(1, 1, 1);
-        int[] by = {0, 1, 11, 0, 0, 33};
         int[] given = {1, 2, NONE, 2, 2, 0};
         for (int kind = 1; kind <= 6; kind++) {
-            x.rule(kind, kind, by[kind - 1]);
             for (int taken = 0; taken <= 6; taken++) {
                 int s = kind;
                 int as = taken;
                 String call = "says of " + kind + " taken for " + taken;
                 if (!isOf[kind - 1][taken]) {
-                    Check.refused(x, call, () -> x.says(s, as), OTHER);
+                    Check.refuses(PromiseTest::rulesOfAllKinds, call, o -> o.says(s, as), OTHER);
                 } else {
-                    due(call, x.says(kind, taken), taken == 0 ? by[kind - 1] : taken == 6 ? 20 : given[kind - 1]);
+                    due(call, x.says(kind, taken), taken == 0 ? BY[kind - 1] : taken == 6 ? 20 : given[kind - 1]);
                 }
             }
         }
@@ -208,26 +250,32 @@ public final class PromiseTest {
         due("LEAST still", x.says(1, 1), 1);
         due("KEEP has none", x.says(2, 1), NONE);
         due("EVEN", x.says(5, 4), 1);
-        Check.refused(x, "says of no shelf", () -> x.says(8, 0), BAD);
-        Check.refused(x, "says for 7", () -> x.says(0, 7), BAD);
-        Check.refused(x, "says of nothing", () -> x.says(0, 1), NOTHING);
-        x.row(0, 0, 1);
-        Check.refused(x, "says of a row", () -> x.says(0, 0), OTHER);
+        Check.refuses(PromiseTest::rulesOfAllKinds, "says of no shelf", o -> o.says(8, 0), BAD);
+        Check.refuses(PromiseTest::rulesOfAllKinds, "says for 7", o -> o.says(0, 7), BAD);
+        Check.refuses(PromiseTest::rulesOfAllKinds, "says of nothing", o -> o.says(0, 1), NOTHING);
+        Check.refuses(PromiseTest::rulesOfAllKinds, "says of a row", o -> o.says(7, 0), OTHER);
         for (int far : FAR_OUT) {
-            Check.refused(x, "says(far, 0)", () -> x.says(far, 0), BAD);
-            Check.refused(x, "says(1, far)", () -> x.says(1, far), BAD);
+            Check.refuses(PromiseTest::rulesOfAllKinds, "says(far, 0)", o -> o.says(far, 0), BAD);
+            Check.refuses(PromiseTest::rulesOfAllKinds, "says(1, far)", o -> o.says(1, far), BAD);
         }
-        ThreeSizes none = new ThreeSizes();
+        ThreeSizes none = rulesWithNoSort();
         for (int kind = 1; kind <= 6; kind++) {
-            none.rule(kind, kind, 7);
             int s = kind;
             due("a with no sort", none.says(kind, 0), 7);
             if (kind < 6) {
-                Check.refused(none, "says with no sort", () -> none.says(s, s), STUCK);
+                Check.refuses(PromiseTest::rulesWithNoSort, "says with no sort", o -> o.says(s, s), STUCK);
             }
         }
         due("WISE with no sort", none.says(6, 6), 7);
-        Check.refused(none, "OTHER ahead of STUCK", () -> none.says(1, 2), OTHER);
+        Check.refuses(PromiseTest::rulesWithNoSort, "OTHER ahead of STUCK", o -> o.says(1, 2), OTHER);
+    }
+
+    /** All three boxes of a SIZE are FULL. */
+    private static ThreeSizes threeFull(int size) {
+        ThreeSizes x = new ThreeSizes();
+        x.size(size, 0, 3);
+        x.size(size, 1, 3);
+        return x;
     }
 
     private static void promise9() {
@@ -237,27 +285,49 @@ public final class PromiseTest {
             due("boxes", x.size(size, 0, 4), 2);
             due("boxes again", x.size(size, 0, 3), 4);
             due("full", x.size(size, 1, 3), 0);
-            Check.refused(x, "fewer than full", () -> x.size(z, 0, 2), STUCK);
-            Check.refused(x, "more than boxes", () -> x.size(z, 1, 4), STUCK);
-            Check.refused(x, "5 boxes", () -> x.size(z, 0, 5), BAD);
-            Check.refused(x, "5 full", () -> x.size(z, 1, 5), BAD);
+            Check.refuses(() -> threeFull(z), "fewer than full", o -> o.size(z, 0, 2), STUCK);
+            Check.refuses(() -> threeFull(z), "more than boxes", o -> o.size(z, 1, 4), STUCK);
+            Check.refuses(() -> threeFull(z), "5 boxes", o -> o.size(z, 0, 5), BAD);
+            Check.refuses(() -> threeFull(z), "5 full", o -> o.size(z, 1, 5), BAD);
             due("full again", x.size(size, 1, 0), 3);
             due("no boxes", x.size(size, 0, 0), 3);
             due("goes", x.size(size, 2, 10), 3);
             due("goes again", x.size(size, 2, 0), 10);
-            Check.refused(x, "goes 11", () -> x.size(z, 2, 11), BAD);
-            Check.refused(x, "no such number", () -> x.size(z, 3, 0), BAD);
+            Check.refuses(() -> threeFull(z), "goes 11", o -> o.size(z, 2, 11), BAD);
+            Check.refuses(() -> threeFull(z), "no such number", o -> o.size(z, 3, 0), BAD);
             due("status boxes", x.status(1 + size), 0);
         }
-        Check.refused(x, "size 3", () -> x.size(3, 0, 0), BAD);
+        Check.refuses(() -> threeFull(0), "size 3", o -> o.size(3, 0, 0), BAD);
         for (int far : FAR_OUT) {
-            Check.refused(x, "size(far, 0, 0)", () -> x.size(far, 0, 0), BAD);
-            Check.refused(x, "size(0, far, 0)", () -> x.size(0, far, 0), BAD);
+            Check.refuses(() -> threeFull(0), "size(far, 0, 0)", o -> o.size(far, 0, 0), BAD);
+            Check.refuses(() -> threeFull(0), "size(0, far, 0)", o -> o.size(0, far, 0), BAD);
             for (int what = 0; what < 3; what++) {
                 int which = what;
-                Check.refused(x, "size(0, what, far)", () -> x.size(0, which, far), BAD);
+                Check.refuses(() -> threeFull(0), "size(0, what, far)", o -> o.size(0, which, far), BAD);
             }
         }
+    }
+
+    private static ThreeSizes oneSort() {
+        ThreeSizes x = new ThreeSizes();
+        x.sort(0, 1, 1, 1);
+        return x;
+    }
+
+    private static ThreeSizes sortsToHundred() {
+        ThreeSizes x = new ThreeSizes();
+        x.sort(0, 0, 1, 0);
+        x.sort(2, 100, 99, 99);
+        return x;
+    }
+
+    /** As many as there can be, and 100 hundredths of them. */
+    private static ThreeSizes sixSorts() {
+        ThreeSizes x = sortsToHundred();
+        for (int i = 2; i < 6; i++) {
+            x.sort(1, 0, 10, 5);
+        }
+        return x;
     }
 
     private static void promises10and12() {
@@ -270,30 +340,35 @@ public final class PromiseTest {
                 due("sortOf", x.sortOf(sort, what), due[sort][what]);
             }
         }
-        Check.refused(x, "comes past 100", () -> x.sort(0, 1, 1, 0), STUCK);
-        Check.refused(x, "BAD ahead of STUCK", () -> x.sort(3, 1, 1, 0), BAD);
+        Check.refuses(PromiseTest::sortsToHundred, "comes past 100", o -> o.sort(0, 1, 1, 0), STUCK);
+        Check.refuses(PromiseTest::sortsToHundred, "BAD ahead of STUCK", o -> o.sort(3, 1, 1, 0), BAD);
         for (int i = 2; i < 6; i++) {
             due("sort", x.sort(1, 0, 10, 5), i);
         }
-        Check.refused(x, "STUCK ahead of FULL", () -> x.sort(0, 1, 1, 0), STUCK);
-        Check.refused(x, "a seventh", () -> x.sort(0, 0, 1, 0), FULL);
-        ThreeSizes y = new ThreeSizes();
-        y.sort(0, 1, 1, 1);
-        Check.refused(y, "size 3", () -> y.sort(3, 1, 1, 1), BAD);
-        Check.refused(y, "comes 101", () -> y.sort(0, 101, 1, 1), BAD);
-        Check.refused(y, "worth 0", () -> y.sort(0, 1, 0, 1), BAD);
-        Check.refused(y, "worth 100", () -> y.sort(0, 1, 100, 1), BAD);
-        Check.refused(y, "back 100", () -> y.sort(0, 1, 1, 100), BAD);
-        Check.refused(y, "no such sort", () -> y.sortOf(1, 0), BAD);
-        Check.refused(y, "no such number", () -> y.sortOf(0, 4), BAD);
+        Check.refuses(PromiseTest::sixSorts, "STUCK ahead of FULL", o -> o.sort(0, 1, 1, 0), STUCK);
+        Check.refuses(PromiseTest::sixSorts, "a seventh", o -> o.sort(0, 0, 1, 0), FULL);
+        Check.refuses(PromiseTest::oneSort, "size 3", o -> o.sort(3, 1, 1, 1), BAD);
+        Check.refuses(PromiseTest::oneSort, "comes 101", o -> o.sort(0, 101, 1, 1), BAD);
+        Check.refuses(PromiseTest::oneSort, "worth 0", o -> o.sort(0, 1, 0, 1), BAD);
+        Check.refuses(PromiseTest::oneSort, "worth 100", o -> o.sort(0, 1, 100, 1), BAD);
+        Check.refuses(PromiseTest::oneSort, "back 100", o -> o.sort(0, 1, 1, 100), BAD);
+        Check.refuses(PromiseTest::oneSort, "no such sort", o -> o.sortOf(1, 0), BAD);
+        Check.refuses(PromiseTest::oneSort, "no such number", o -> o.sortOf(0, 4), BAD);
         for (int far : FAR_OUT) {
-            Check.refused(y, "sort(far, ..)", () -> y.sort(far, 1, 1, 1), BAD);
-            Check.refused(y, "sort(0, far, ..)", () -> y.sort(0, far, 1, 1), BAD);
-            Check.refused(y, "sort(0, 1, far, 1)", () -> y.sort(0, 1, far, 1), BAD);
-            Check.refused(y, "sort(0, 1, 1, far)", () -> y.sort(0, 1, 1, far), BAD);
-            Check.refused(y, "sortOf(far, 0)", () -> y.sortOf(far, 0), BAD);
-            Check.refused(y, "sortOf(0, far)", () -> y.sortOf(0, far), BAD);
+            Check.refuses(PromiseTest::oneSort, "sort(far, ..)", o -> o.sort(far, 1, 1, 1), BAD);
+            Check.refuses(PromiseTest::oneSort, "sort(0, far, ..)", o -> o.sort(0, far, 1, 1), BAD);
+            Check.refuses(PromiseTest::oneSort, "sort(0, 1, far, 1)", o -> o.sort(0, 1, far, 1), BAD);
+            Check.refuses(PromiseTest::oneSort, "sort(0, 1, 1, far)", o -> o.sort(0, 1, 1, far), BAD);
+            Check.refuses(PromiseTest::oneSort, "sortOf(far, 0)", o -> o.sortOf(far, 0), BAD);
+            Check.refuses(PromiseTest::oneSort, "sortOf(0, far)", o -> o.sortOf(0, far), BAD);
         }
+    }
+
+    private static ThreeSizes sortsInARow() {
+        ThreeSizes x = oneSort();
+        Scenes.fill(x, 0, 0, 1, 1, 1, 0, 1, 0, 1, 0, 1, 1, 1);
+        x.rule(2, 1, 0);
+        return x;
     }
 
     private static void promise11() {
@@ -323,17 +398,23 @@ public final class PromiseTest {
         y.set(1, 2, 5);
         due("by booleans", y.sorts(1, 4), 1);
         due("is 1", y.sortOf(2, 2), 1);
-        y.rule(2, 1, 0);
-        Check.refused(y, "sorts by no shelf", () -> y.sorts(8, 4), BAD);
-        Check.refused(y, "sorts by a rule", () -> y.sorts(2, -1), OTHER);
-        Check.refused(y, "sorts by nothing", () -> y.sorts(3, -1), NOTHING);
-        Check.refused(y, "no multiple of four", () -> y.sorts(0, 6), BAD);
-        Check.refused(y, "more than elements", () -> y.sorts(0, 16), BAD);
-        Check.refused(y, "-4", () -> y.sorts(0, -4), BAD);
+        Check.refuses(PromiseTest::sortsInARow, "sorts by no shelf", o -> o.sorts(8, 4), BAD);
+        Check.refuses(PromiseTest::sortsInARow, "sorts by a rule", o -> o.sorts(2, -1), OTHER);
+        Check.refuses(PromiseTest::sortsInARow, "sorts by nothing", o -> o.sorts(3, -1), NOTHING);
+        Check.refuses(PromiseTest::sortsInARow, "no multiple of four", o -> o.sorts(0, 6), BAD);
+        Check.refuses(PromiseTest::sortsInARow, "more than elements", o -> o.sorts(0, 16), BAD);
+        Check.refuses(PromiseTest::sortsInARow, "-4", o -> o.sorts(0, -4), BAD);
         for (int far : FAR_OUT) {
-            Check.refused(y, "sorts(far, 4)", () -> y.sorts(far, 4), BAD);
-            Check.refused(y, "sorts(0, far)", () -> y.sorts(0, far), BAD);
+            Check.refuses(PromiseTest::sortsInARow, "sorts(far, 4)", o -> o.sorts(far, 4), BAD);
+            Check.refuses(PromiseTest::sortsInARow, "sorts(0, far)", o -> o.sorts(0, far), BAD);
         }
+    }
+
+    private static ThreeSizes askedFor() {
+        ThreeSizes x = new ThreeSizes();
+        x.ask(0, 4);
+        x.ask(1, 0);
+        return x;
     }
 
     private static void promise13() {
@@ -345,14 +426,20 @@ public final class PromiseTest {
         x.ask(0, 4);
         due("status near", x.status(10), 4);
         due("status way", x.status(11), 0);
-        Check.refused(x, "near 11", () -> x.ask(0, 11), BAD);
-        Check.refused(x, "way 100", () -> x.ask(1, 100), BAD);
-        Check.refused(x, "ask 2", () -> x.ask(2, 1), BAD);
+        Check.refuses(PromiseTest::askedFor, "near 11", o -> o.ask(0, 11), BAD);
+        Check.refuses(PromiseTest::askedFor, "way 100", o -> o.ask(1, 100), BAD);
+        Check.refuses(PromiseTest::askedFor, "ask 2", o -> o.ask(2, 1), BAD);
         for (int far : FAR_OUT) {
-            Check.refused(x, "ask(far, 1)", () -> x.ask(far, 1), BAD);
-            Check.refused(x, "ask(0, far)", () -> x.ask(0, far), BAD);
-            Check.refused(x, "ask(1, far)", () -> x.ask(1, far), BAD);
+            Check.refuses(PromiseTest::askedFor, "ask(far, 1)", o -> o.ask(far, 1), BAD);
+            Check.refuses(PromiseTest::askedFor, "ask(0, far)", o -> o.ask(0, far), BAD);
+            Check.refuses(PromiseTest::askedFor, "ask(1, far)", o -> o.ask(1, far), BAD);
         }
+    }
+
+    private static ThreeSizes tapeOf(int n) {
+        ThreeSizes x = new ThreeSizes();
+        Check.feed(x, " ".repeat(n));
+        return x;
     }
 
     private static void promises14and15() {
@@ -372,26 +459,30 @@ public final class PromiseTest {
             due("feed", x.feed(-1, 4), 4 * i);
         }
         due("199", x.feed(0, 3), 199);
-        Check.refused(x, "over 200", () -> x.feed(0, 2), FULL);
+        Check.refuses(() -> tapeOf(199), "over 200", o -> o.feed(0, 2), FULL);
         due("200", x.feed(0, 1), 200);
-        Check.refused(x, "201", () -> x.feed(0, 1), FULL);
-        Check.refused(x, "BAD ahead of FULL", () -> x.feed(0, 5), BAD);
+        Check.refuses(() -> tapeOf(200), "201", o -> o.feed(0, 1), FULL);
+        Check.refuses(() -> tapeOf(200), "BAD ahead of FULL", o -> o.feed(0, 5), BAD);
         due("wipe", x.wipe(), 200);
         due("wipe again", x.wipe(), 0);
-        Check.refused(x, "feed none", () -> x.feed(1, 0), BAD);
-        Check.refused(x, "feed 5", () -> x.feed(1, 5), BAD);
+        Check.refuses(() -> tapeOf(3), "feed none", o -> o.feed(1, 0), BAD);
+        Check.refuses(() -> tapeOf(3), "feed 5", o -> o.feed(1, 5), BAD);
         for (int far : FAR_OUT) {
-            Check.refused(x, "feed far", () -> x.feed(1, far), BAD);
+            Check.refuses(() -> tapeOf(3), "feed far", o -> o.feed(1, far), BAD);
         }
     }
 
-    private static void fault(ThreeSizes x, String text, int place) {
-        String ahead = Check.told(x);
-        int[] counts = Check.refusals(x);
-        due("wall of '" + text + "'", Check.wall(x, text), -20 - place);
-        counts[0]++;
-        Check.same("refusals by '" + text + "'", java.util.Arrays.toString(Check.refusals(x)), java.util.Arrays.toString(counts));
-        Check.same("all else by '" + text + "'", Check.told(x), ahead);
+    private static void fault(Supplier<ThreeSizes> scene, String text, int place) {
+        Check.refuses(scene, "wall of '" + text + "'", o -> Check.wall(o, text), -20 - place - BAD, BAD);
+    }
+
+    /** Three small boxes, all FULL; four SORTS, 27 hundredths. */
+    private static ThreeSizes readWall() {
+        ThreeSizes x = new ThreeSizes();
+        Check.wall(x, "box 0 3;box 1 0;goes 2 10;near 10;way 99;sort 2 comes 20 worth 30 back 0");
+        Check.wall(x, "sort 0 comes 1;sort 1 comes 2 worth 3;sort 2 comes 4 back 6");
+        x.size(0, 1, 3);
+        return x;
     }
 
     private static void promise16() {
@@ -413,58 +504,58 @@ public final class PromiseTest {
         }
         x.size(0, 1, 3);
         due("box down to what is full", Check.wall(x, "box 0 4;box 0 3"), 2);
-        fault(x, "", 0);
-        fault(x, "   ", 3);
-        fault(x, ";", 0);
-        fault(x, "box", 3);
-        fault(x, "box 0", 5);
-        fault(x, "box 0 ", 6);
-        fault(x, "box 0 3;", 8);
-        fault(x, "box 0 3 ; ", 10);
-        fault(x, "box 0 3;;", 8);
-        fault(x, "box 0 2", 6);
-        fault(x, "box 0 5", 6);
-        fault(x, "box 3 1", 4);
-        fault(x, "box x 1", 4);
-        fault(x, "box 0003 1", 4);
-        fault(x, "box 0 0004", 6);
-        fault(x, "box 0 99999999999", 6);
-        fault(x, "box 0 3 4", 8);
-        fault(x, "box 0 3 box 1 1", 8);
-        fault(x, "boxes 0 3", 0);
-        fault(x, "bo", 0);
-        fault(x, "goes 0 11", 7);
-        fault(x, "goes 3 1", 5);
-        fault(x, "near 11", 5);
-        fault(x, "way 100", 4);
-        fault(x, "way;", 3);
-        fault(x, "way 1!", 5);
-        fault(x, "way 1\u00e9", 5);
-        fault(x, "way\t1", 3);
-        fault(x, "Way 1", 0);
-        fault(x, "wayA 1", 3);
-        fault(x, "wayz 1", 0);
-        fault(x, "fox 0 3", 0);
-        fault(x, "tear 1", 0);
-        fault(x, "7", 0);
-        fault(x, "comes 7", 0);
-        fault(x, "sort 0", 6);
-        fault(x, "sort 3 comes 1", 5);
-        fault(x, "sort 0 worth 1", 7);
-        fault(x, "sort 0 comes", 12);
-        fault(x, "sort 0 comes 1 worth 0", 21);
-        fault(x, "sort 0 comes 1 worth 100", 21);
-        fault(x, "sort 0 comes 1 worth 1 back 100", 28);
-        fault(x, "sort 0 comes 1 back 1 worth 1", 22);
-        fault(x, "sort 0 comes 1 worth 1 worth 1", 23);
-        fault(x, "sort 0 comes 1 back 1 back 1", 22);
-        fault(x, "sort 0 comes 74", 13);
-        fault(x, "sort 0 comes 101", 13);
-        fault(x, "sort 0 comes 73;sort 0 comes 1", 29);
-        fault(x, "near 4;way 4;goes 0 0;box 1 1;sort 0 comes 1;oh", 45);
+        fault(PromiseTest::readWall, "", 0);
+        fault(PromiseTest::readWall, "   ", 3);
+        fault(PromiseTest::readWall, ";", 0);
+        fault(PromiseTest::readWall, "box", 3);
+        fault(PromiseTest::readWall, "box 0", 5);
+        fault(PromiseTest::readWall, "box 0 ", 6);
+        fault(PromiseTest::readWall, "box 0 3;", 8);
+        fault(PromiseTest::readWall, "box 0 3 ; ", 10);
+        fault(PromiseTest::readWall, "box 0 3;;", 8);
+        fault(PromiseTest::readWall, "box 0 2", 6);
+        fault(PromiseTest::readWall, "box 0 5", 6);
+        fault(PromiseTest::readWall, "box 3 1", 4);
+        fault(PromiseTest::readWall, "box x 1", 4);
+        fault(PromiseTest::readWall, "box 0003 1", 4);
+        fault(PromiseTest::readWall, "box 0 0004", 6);
+        fault(PromiseTest::readWall, "box 0 99999999999", 6);
+        fault(PromiseTest::readWall, "box 0 3 4", 8);
+        fault(PromiseTest::readWall, "box 0 3 box 1 1", 8);
+        fault(PromiseTest::readWall, "boxes 0 3", 0);
+        fault(PromiseTest::readWall, "bo", 0);
+        fault(PromiseTest::readWall, "goes 0 11", 7);
+        fault(PromiseTest::readWall, "goes 3 1", 5);
+        fault(PromiseTest::readWall, "near 11", 5);
+        fault(PromiseTest::readWall, "way 100", 4);
+        fault(PromiseTest::readWall, "way;", 3);
+        fault(PromiseTest::readWall, "way 1!", 5);
+        fault(PromiseTest::readWall, "way 1\u00e9", 5);
+        fault(PromiseTest::readWall, "way\t1", 3);
+        fault(PromiseTest::readWall, "Way 1", 0);
+        fault(PromiseTest::readWall, "wayA 1", 3);
+        fault(PromiseTest::readWall, "wayz 1", 0);
+        fault(PromiseTest::readWall, "fox 0 3", 0);
+        fault(PromiseTest::readWall, "tear 1", 0);
+        fault(PromiseTest::readWall, "7", 0);
+        fault(PromiseTest::readWall, "comes 7", 0);
+        fault(PromiseTest::readWall, "sort 0", 6);
+        fault(PromiseTest::readWall, "sort 3 comes 1", 5);
+        fault(PromiseTest::readWall, "sort 0 worth 1", 7);
+        fault(PromiseTest::readWall, "sort 0 comes", 12);
+        fault(PromiseTest::readWall, "sort 0 comes 1 worth 0", 21);
+        fault(PromiseTest::readWall, "sort 0 comes 1 worth 100", 21);
+        fault(PromiseTest::readWall, "sort 0 comes 1 worth 1 back 100", 28);
+        fault(PromiseTest::readWall, "sort 0 comes 1 back 1 worth 1", 22);
+        fault(PromiseTest::readWall, "sort 0 comes 1 worth 1 worth 1", 23);
+        fault(PromiseTest::readWall, "sort 0 comes 1 back 1 back 1", 22);
+        fault(PromiseTest::readWall, "sort 0 comes 74", 13);
+        fault(PromiseTest::readWall, "sort 0 comes 101", 13);
+        fault(PromiseTest::readWall, "sort 0 comes 73;sort 0 comes 1", 29);
+        fault(PromiseTest::readWall, "near 4;way 4;goes 0 0;box 1 1;sort 0 comes 1;oh", 45);
         due("up to 100", Check.wall(x, "sort 0 comes 73;sort 0 comes 0"), 2);
-        fault(x, "sort 0 comes 0", 0);
-        fault(x, "near 1;sort", 7);
+        fault(PromiseTest::sixSorts, "sort 0 comes 0", 0);
+        fault(PromiseTest::sixSorts, "near 1;sort", 7);
         due("the rest still", Check.wall(x, "near 1"), 1);
         StringBuilder many = new StringBuilder("way0");
         for (int i = 0; i < 39; i++) {
@@ -474,21 +565,26 @@ public final class PromiseTest {
         due("way", x.status(11), 1);
     }
 
-    private static void promise17() {
+    private static ThreeSizes someFull() {
         ThreeSizes x = new ThreeSizes();
         Scenes.boxes(x, 4, 3, 2);
-        x.size(0, 1, 1);
-        x.size(1, 1, 3);
+        Scenes.full(x, 1, 3, 0);
+        return x;
+    }
+
+    private static void promise17() {
+        ThreeSizes x = someFull();
         due("free", x.state(0), 5);
         due("full", x.state(1), 4);
         due("state", x.state(2), 3 + 0 + 50);
-        Check.refused(x, "state 3", () -> x.state(3), BAD);
+        Check.refuses(PromiseTest::someFull, "state 3", o -> o.state(3), BAD);
         for (int far : FAR_OUT) {
-            Check.refused(x, "state far", () -> x.state(far), BAD);
+            Check.refuses(PromiseTest::someFull, "state far", o -> o.state(far), BAD);
         }
     }
 
-    private static void promise18() {
+    /** All boxes FREE: 4 4 3; a SORT of each SIZE; RULES but WISE, each in the SHELF of its KIND; 6: a ROW. */
+    private static ThreeSizes fiveRules() {
         ThreeSizes x = new ThreeSizes();
         Scenes.boxes(x, 4, 4, 3);
         for (int size = 0; size < 3; size++) {
@@ -499,6 +595,12 @@ public final class PromiseTest {
         x.rule(3, 3, 11);
         x.rule(4, 4, 3);
         x.rule(5, 5, 3);
+        x.row(6, 0, 1);
+        return x;
+    }
+
+    private static void promise18() {
+        ThreeSizes x = fiveRules();
         int[][] cases = {
             // SORT, STATE, then by LEAST, KEEP 2, SOME 11, GREAT, EVEN
             {0, 1 + 5 + 25, 0, 0, NONE, 2, 2},
@@ -528,17 +630,16 @@ public final class PromiseTest {
         y.ask(0, 10);
         y.ask(1, 0);
         due("of several none rather than one", y.gets(0, 0, 25), NONE);
-        x.row(6, 0, 1);
-        Check.refused(x, "gets by no shelf", () -> x.gets(8, 0, 0), BAD);
-        Check.refused(x, "no sort", () -> x.gets(6, 3, 0), BAD);
-        Check.refused(x, "more free than boxes", () -> x.gets(6, 0, 100), BAD);
-        Check.refused(x, "state 125", () -> x.gets(7, 0, 125), BAD);
-        Check.refused(x, "gets by a row", () -> x.gets(6, 0, 0), OTHER);
-        Check.refused(x, "gets by nothing", () -> x.gets(7, 0, 0), NOTHING);
+        Check.refuses(PromiseTest::fiveRules, "gets by no shelf", o -> o.gets(8, 0, 0), BAD);
+        Check.refuses(PromiseTest::fiveRules, "no sort", o -> o.gets(6, 3, 0), BAD);
+        Check.refuses(PromiseTest::fiveRules, "more free than boxes", o -> o.gets(6, 0, 100), BAD);
+        Check.refuses(PromiseTest::fiveRules, "state 125", o -> o.gets(7, 0, 125), BAD);
+        Check.refuses(PromiseTest::fiveRules, "gets by a row", o -> o.gets(6, 0, 0), OTHER);
+        Check.refuses(PromiseTest::fiveRules, "gets by nothing", o -> o.gets(7, 0, 0), NOTHING);
         for (int far : FAR_OUT) {
-            Check.refused(x, "gets(far, 0, 0)", () -> x.gets(far, 0, 0), BAD);
-            Check.refused(x, "gets(1, far, 0)", () -> x.gets(1, far, 0), BAD);
-            Check.refused(x, "gets(1, 0, far)", () -> x.gets(1, 0, far), BAD);
+            Check.refuses(PromiseTest::fiveRules, "gets(far, 0, 0)", o -> o.gets(far, 0, 0), BAD);
+            Check.refuses(PromiseTest::fiveRules, "gets(1, far, 0)", o -> o.gets(1, far, 0), BAD);
+            Check.refuses(PromiseTest::fiveRules, "gets(1, 0, far)", o -> o.gets(1, 0, far), BAD);
         }
         x.size(0, 1, 4);
         due("a state with more free than now", x.gets(1, 0, 4), 0);
@@ -554,10 +655,19 @@ public final class PromiseTest {
         due("some near", x.lost(0), 100000 * (4 * 15 - 6 * 7));
         x.ask(1, 99);
         due("a long way", x.lost(0), 100000 * (4 * -79 - 6 * 7));
-        Check.refusedFar(x, "lost(1)", () -> x.lost(1), BAD);
+        Check.refuses(PromiseTest::oneSort, "lost(1)", o -> o.lost(1), Check.FAR, BAD);
         for (int far : FAR_OUT) {
-            Check.refusedFar(x, "lost(far)", () -> x.lost(far), BAD);
+            Check.refuses(PromiseTest::oneSort, "lost(far)", o -> o.lost(far), Check.FAR, BAD);
         }
+    }
+
+    /** SHELF 0: a LEAST; 1: a WISE by 1; 2: a ROW. */
+    private static ThreeSizes scarceByRules() {
+        ThreeSizes x = Scenes.scarce();
+        x.rule(0, 1, 0);
+        x.rule(1, 6, 1);
+        x.row(2, 0, 1);
+        return x;
     }
 
     private static void promises20and21() {
@@ -577,25 +687,22 @@ public final class PromiseTest {
         x.size(0, 2, 0);
         due("full: never fetched", x.best(24), -120000000);
         cuts();
-        ThreeSizes z = Scenes.scarce();
-        z.rule(0, 1, 0);
-        z.rule(1, 6, 1);
+        ThreeSizes z = scarceByRules();
         due("the small one takes it", z.value(0, 1), 26000000);
         due("the best of one hour", z.best(1), 26000000);
         due("of two: it is kept for the large one", z.best(2), 25000000 + 13000000);
         due("of two by LEAST", z.value(0, 2), 26000000);
         due("WISE leaves it in the last hour, too", z.value(1, 1), 25000000);
         due("of two by WISE", z.value(1, 2), 25000000 + 12500000);
-        z.row(2, 0, 1);
-        Check.refusedFar(z, "value of no shelf", () -> z.value(8, 1), BAD);
-        Check.refusedFar(z, "value of 25 hours", () -> z.value(2, 25), BAD);
-        Check.refusedFar(z, "value by a row", () -> z.value(2, 1), OTHER);
-        Check.refusedFar(z, "value by nothing", () -> z.value(3, 1), NOTHING);
-        Check.refusedFar(z, "best of 25 hours", () -> z.best(25), BAD);
+        Check.refuses(PromiseTest::scarceByRules, "value of no shelf", o -> o.value(8, 1), Check.FAR, BAD);
+        Check.refuses(PromiseTest::scarceByRules, "value of 25 hours", o -> o.value(2, 25), Check.FAR, BAD);
+        Check.refuses(PromiseTest::scarceByRules, "value by a row", o -> o.value(2, 1), Check.FAR, OTHER);
+        Check.refuses(PromiseTest::scarceByRules, "value by nothing", o -> o.value(3, 1), Check.FAR, NOTHING);
+        Check.refuses(PromiseTest::scarceByRules, "best of 25 hours", o -> o.best(25), Check.FAR, BAD);
         for (int far : FAR_OUT) {
-            Check.refusedFar(z, "value(far, 1)", () -> z.value(far, 1), BAD);
-            Check.refusedFar(z, "value(0, far)", () -> z.value(0, far), BAD);
-            Check.refusedFar(z, "best(far)", () -> z.best(far), BAD);
+            Check.refuses(PromiseTest::scarceByRules, "value(far, 1)", o -> o.value(far, 1), Check.FAR, BAD);
+            Check.refuses(PromiseTest::scarceByRules, "value(0, far)", o -> o.value(0, far), Check.FAR, BAD);
+            Check.refuses(PromiseTest::scarceByRules, "best(far)", o -> o.best(far), Check.FAR, BAD);
         }
     }
 
@@ -632,33 +739,37 @@ public final class PromiseTest {
         ThreeSizes y = new ThreeSizes();
         y.sort(0, 10, 10, 5);
         due("of several the least", y.now(0, 0), 0);
-        ThreeSizes z = Scenes.scarce();
-        z.rule(0, 1, 0);
+        ThreeSizes z = scarceByRules();
         z.rule(1, 6, 24);
         due("gap of two hours", z.gap(0, 2), 12000000);
         due("gap of one hour", z.gap(0, 1), 0);
         due("gap of WISE", z.gap(1, 1), 1000000);
         due("gap of no hours", z.gap(1, 0), 0);
-        z.row(2, 0, 1);
-        Check.refused(z, "now of no sort", () -> z.now(2, 1), BAD);
-        Check.refused(z, "now of 25 hours", () -> z.now(0, 25), BAD);
-        Check.refusedFar(z, "gap of no shelf", () -> z.gap(8, 1), BAD);
-        Check.refusedFar(z, "gap of 25 hours", () -> z.gap(3, 25), BAD);
-        Check.refusedFar(z, "gap by a row", () -> z.gap(2, 1), OTHER);
-        Check.refusedFar(z, "gap by nothing", () -> z.gap(3, 1), NOTHING);
+        Check.refuses(PromiseTest::scarceByRules, "now of no sort", o -> o.now(2, 1), BAD);
+        Check.refuses(PromiseTest::scarceByRules, "now of 25 hours", o -> o.now(0, 25), BAD);
+        Check.refuses(PromiseTest::scarceByRules, "gap of no shelf", o -> o.gap(8, 1), Check.FAR, BAD);
+        Check.refuses(PromiseTest::scarceByRules, "gap of 25 hours", o -> o.gap(3, 25), Check.FAR, BAD);
+        Check.refuses(PromiseTest::scarceByRules, "gap by a row", o -> o.gap(2, 1), Check.FAR, OTHER);
+        Check.refuses(PromiseTest::scarceByRules, "gap by nothing", o -> o.gap(3, 1), Check.FAR, NOTHING);
         for (int far : FAR_OUT) {
-            Check.refused(z, "now(far, 1)", () -> z.now(far, 1), BAD);
-            Check.refused(z, "now(0, far)", () -> z.now(0, far), BAD);
-            Check.refusedFar(z, "gap(far, 1)", () -> z.gap(far, 1), BAD);
-            Check.refusedFar(z, "gap(0, far)", () -> z.gap(0, far), BAD);
+            Check.refuses(PromiseTest::scarceByRules, "now(far, 1)", o -> o.now(far, 1), BAD);
+            Check.refuses(PromiseTest::scarceByRules, "now(0, far)", o -> o.now(0, far), BAD);
+            Check.refuses(PromiseTest::scarceByRules, "gap(far, 1)", o -> o.gap(far, 1), Check.FAR, BAD);
+            Check.refuses(PromiseTest::scarceByRules, "gap(0, far)", o -> o.gap(0, far), Check.FAR, BAD);
         }
+    }
+
+    private static ThreeSizes scarceWithARow() {
+        ThreeSizes x = Scenes.scarce();
+        x.row(0, 0, 4);
+        return x;
     }
 
     private static void promises24and25() {
         ThreeSizes x = Scenes.scarce();
-        Check.refused(x, "no rule", () -> x.head(1), STUCK);
+        Check.refuses(Scenes::scarce, "no rule", o -> o.head(1), STUCK);
         x.row(0, 0, 4);
-        Check.refused(x, "a row alone", () -> x.head(1), STUCK);
+        Check.refuses(PromiseTest::scarceWithARow, "a row alone", o -> o.head(1), STUCK);
         x.rule(2, 1, 0);
         x.rule(4, 4, 0);
         x.rule(5, 6, 5);
@@ -683,19 +794,28 @@ public final class PromiseTest {
         due("keep both for large ones", more.keep(3), 2);
         Scenes.boxes(more, 0, 0, 4);
         due("keep all four for large ones", more.keep(8), 4);
-        Check.refused(x, "head of 25", () -> x.head(25), BAD);
-        Check.refused(x, "keep of 25", () -> x.keep(25), BAD);
+        Check.refuses(PromiseTest::scarceByRules, "head of 25", o -> o.head(25), BAD);
+        Check.refuses(PromiseTest::scarceByRules, "keep of 25", o -> o.keep(25), BAD);
         for (int far : FAR_OUT) {
-            Check.refused(x, "head(far)", () -> x.head(far), BAD);
-            Check.refused(x, "keep(far)", () -> x.keep(far), BAD);
+            Check.refuses(PromiseTest::scarceByRules, "head(far)", o -> o.head(far), BAD);
+            Check.refuses(PromiseTest::scarceByRules, "keep(far)", o -> o.keep(far), BAD);
         }
     }
 
-    private static void promise26() {
+    /** A middle and a large box, never fetched; SHELVES 0, 3 and 4: ROWS; 1: a LEAST. */
+    private static ThreeSizes cartfuls() {
         ThreeSizes x = Scenes.scarce();
         Scenes.boxes(x, 0, 1, 1);
         x.size(1, 2, 0);
         Scenes.fill(x, 0, 0, 1, 0, 1, 7);
+        x.rule(1, 1, 0);
+        x.row(3, 4, 6);
+        Scenes.fill(x, 4, 4294967296L, -1);
+        return x;
+    }
+
+    private static void promise26() {
+        ThreeSizes x = cartfuls();
         due("cart of none", x.cart(0, 0, 0, NONE), 0);
         due("cart of none with an hour", x.cart(0, 0, 1, NONE), x.best(1));
         due("cart of two", x.cart(0, 2, 0, NONE), 52000000);
@@ -709,65 +829,65 @@ public final class PromiseTest {
         due("the other large one", x.cart(0, 4, 0, 3), 2);
         due("one with an hour behind it", x.cart(0, 1, 1, NONE), 2000000 + 26000000);
         due("gets the middle one", x.cart(0, 1, 1, 0), 1);
-        x.rule(1, 1, 0);
-        x.row(3, 4, 6);
         due("booleans are sorts", x.cart(3, 6, 0, NONE), 4000000);
-        Check.refusedFar(x, "no shelf", () -> x.cart(8, 0, 0, NONE), BAD);
-        Check.refusedFar(x, "seven", () -> x.cart(0, 7, 0, NONE), BAD);
-        Check.refusedFar(x, "25 hours", () -> x.cart(0, 1, 25, NONE), BAD);
-        Check.refusedFar(x, "no such one", () -> x.cart(0, 2, 0, 2), BAD);
-        Check.refusedFar(x, "no such one, ahead", () -> x.cart(1, 2, 0, 2), BAD);
-        Check.refusedFar(x, "no such one at all, ahead", () -> x.cart(2, 0, 0, 0), BAD);
-        Check.refusedFar(x, "-2", () -> x.cart(0, 2, 0, -2), BAD);
-        Check.refusedFar(x, "no sort", () -> x.cart(0, 5, 0, NONE), BAD);
-        Check.refusedFar(x, "fewer elements", () -> x.cart(0, 6, 0, NONE), BAD);
-        Check.refusedFar(x, "cart by a rule", () -> x.cart(1, 6, 0, NONE), OTHER);
-        Check.refusedFar(x, "cart by nothing", () -> x.cart(2, 6, 0, NONE), NOTHING);
-        Scenes.fill(x, 4, 4294967296L, -1);
-        Check.refusedFar(x, "a long that is no sort", () -> x.cart(4, 1, 0, NONE), BAD);
+        Check.refuses(PromiseTest::cartfuls, "no shelf", o -> o.cart(8, 0, 0, NONE), Check.FAR, BAD);
+        Check.refuses(PromiseTest::cartfuls, "seven", o -> o.cart(0, 7, 0, NONE), Check.FAR, BAD);
+        Check.refuses(PromiseTest::cartfuls, "25 hours", o -> o.cart(0, 1, 25, NONE), Check.FAR, BAD);
+        Check.refuses(PromiseTest::cartfuls, "no such one", o -> o.cart(0, 2, 0, 2), Check.FAR, BAD);
+        Check.refuses(PromiseTest::cartfuls, "no such one, ahead", o -> o.cart(1, 2, 0, 2), Check.FAR, BAD);
+        Check.refuses(PromiseTest::cartfuls, "no such one at all, ahead", o -> o.cart(2, 0, 0, 0), Check.FAR, BAD);
+        Check.refuses(PromiseTest::cartfuls, "-2", o -> o.cart(0, 2, 0, -2), Check.FAR, BAD);
+        Check.refuses(PromiseTest::cartfuls, "no sort", o -> o.cart(0, 5, 0, NONE), Check.FAR, BAD);
+        Check.refuses(PromiseTest::cartfuls, "fewer elements", o -> o.cart(0, 6, 0, NONE), Check.FAR, BAD);
+        Check.refuses(PromiseTest::cartfuls, "cart by a rule", o -> o.cart(1, 6, 0, NONE), Check.FAR, OTHER);
+        Check.refuses(PromiseTest::cartfuls, "cart by nothing", o -> o.cart(2, 6, 0, NONE), Check.FAR, NOTHING);
+        Check.refuses(PromiseTest::cartfuls, "a long that is no sort", o -> o.cart(4, 1, 0, NONE), Check.FAR, BAD);
         for (int far : FAR_OUT) {
-            Check.refusedFar(x, "cart(far, ..)", () -> x.cart(far, 1, 1, 0), BAD);
-            Check.refusedFar(x, "cart(0, far, ..)", () -> x.cart(0, far, 1, NONE), BAD);
-            Check.refusedFar(x, "cart(0, 1, far, 0)", () -> x.cart(0, 1, far, 0), BAD);
+            Check.refuses(PromiseTest::cartfuls, "cart(far, ..)", o -> o.cart(far, 1, 1, 0), Check.FAR, BAD);
+            Check.refuses(PromiseTest::cartfuls, "cart(0, far, ..)", o -> o.cart(0, far, 1, NONE), Check.FAR, BAD);
+            Check.refuses(PromiseTest::cartfuls, "cart(0, 1, far, 0)", o -> o.cart(0, 1, far, 0), Check.FAR, BAD);
             if (far != NONE) {
-                Check.refusedFar(x, "cart(0, 1, 1, far)", () -> x.cart(0, 1, 1, far), BAD);
+                Check.refuses(PromiseTest::cartfuls, "cart(0, 1, 1, far)", o -> o.cart(0, 1, 1, far), Check.FAR, BAD);
             }
         }
     }
 
-    private static void promises27and28() {
-        ThreeSizes x = new ThreeSizes();
+    /** SHELF 0: a CARTFUL; 1 and 2: PLACINGS; 3: a LEAST. FREE 1 1 2. */
+    private static ThreeSizes placings() {
+        ThreeSizes x = Scenes.threeSorts();
         Scenes.boxes(x, 1, 1, 2);
-        for (int size = 0; size < 3; size++) {
-            x.sort(size, 10, 10, 5);
-        }
         Scenes.fill(x, 0, 0, 1, 2, 0, 1, 2, 9);
         Scenes.fill(x, 1, 0, 1, 2, 2, 2, -1);
+        Scenes.fill(x, 2, 4294967296L, 0, 2);
+        x.rule(3, 1, 0);
+        return x;
+    }
+
+    private static void promises27and28() {
+        ThreeSizes x = placings();
         due("judge", x.judge(0, 1, 4), NONE);
         due("no free box any more", x.judge(0, 1, 5), 4);
-        Scenes.fill(x, 2, 4294967296L, 0, 2);
         due("does not fit", x.judge(0, 2, 3), 1);
         due("others than 0 to 2 are none", x.judge(0, 2, 1), NONE);
         due("judge of none", x.judge(0, 2, 0), NONE);
-        Check.refused(x, "put what is wrong", () -> x.put(0, 1, 5), STUCK);
-        x.rule(3, 1, 0);
+        Check.refuses(PromiseTest::placings, "put what is wrong", o -> o.put(0, 1, 5), STUCK);
         for (boolean judged : new boolean[] {true, false}) {
             String name = judged ? "judge " : "put ";
-            placingRefused(x, name + "no shelf s", judged, 8, 3, 0, BAD);
-            placingRefused(x, name + "no shelf t", judged, 4, 8, 0, BAD);
-            placingRefused(x, name + "k 7", judged, 3, 4, 7, BAD);
-            placingRefused(x, name + "k -1", judged, 3, 4, -1, BAD);
-            placingRefused(x, name + "a rule s", judged, 3, 4, 6, OTHER);
-            placingRefused(x, name + "a rule t", judged, 4, 3, 6, OTHER);
-            placingRefused(x, name + "nothing s", judged, 4, 0, 6, NOTHING);
-            placingRefused(x, name + "nothing t", judged, 0, 4, 6, NOTHING);
-            placingRefused(x, name + "fewer told", judged, 0, 2, 4, BAD);
-            placingRefused(x, name + "fewer sorts", judged, 2, 0, 4, BAD);
-            placingRefused(x, name + "no sort", judged, 2, 0, 1, BAD);
+            placingRefused(name + "no shelf s", judged, 8, 3, 0, BAD);
+            placingRefused(name + "no shelf t", judged, 4, 8, 0, BAD);
+            placingRefused(name + "k 7", judged, 3, 4, 7, BAD);
+            placingRefused(name + "k -1", judged, 3, 4, -1, BAD);
+            placingRefused(name + "a rule s", judged, 3, 4, 6, OTHER);
+            placingRefused(name + "a rule t", judged, 4, 3, 6, OTHER);
+            placingRefused(name + "nothing s", judged, 4, 0, 6, NOTHING);
+            placingRefused(name + "nothing t", judged, 0, 4, 6, NOTHING);
+            placingRefused(name + "fewer told", judged, 0, 2, 4, BAD);
+            placingRefused(name + "fewer sorts", judged, 2, 0, 4, BAD);
+            placingRefused(name + "no sort", judged, 2, 0, 1, BAD);
             for (int far : FAR_OUT) {
-                placingRefused(x, name + "far s", judged, far, 1, 1, BAD);
-                placingRefused(x, name + "far t", judged, 0, far, 1, BAD);
-                placingRefused(x, name + "far k", judged, 0, 1, far, BAD);
+                placingRefused(name + "far s", judged, far, 1, 1, BAD);
+                placingRefused(name + "far t", judged, 0, far, 1, BAD);
+                placingRefused(name + "far k", judged, 0, 1, far, BAD);
             }
         }
         due("put of none", x.put(0, 1, 0), 0);
@@ -782,8 +902,8 @@ public final class PromiseTest {
         due("all full", x.state(0), 0);
     }
 
-    private static void placingRefused(ThreeSizes x, String call, boolean judged, int s, int t, int k, int number) {
-        Check.refused(x, call, () -> judged ? x.judge(s, t, k) : x.put(s, t, k), number);
+    private static void placingRefused(String call, boolean judged, int s, int t, int k, int number) {
+        Check.refuses(PromiseTest::placings, call, o -> judged ? o.judge(s, t, k) : o.put(s, t, k), number);
     }
 
     private static void promise29() {
@@ -807,13 +927,13 @@ public final class PromiseTest {
         due("seven hours and all the wall", y.build(30, 24, 0), 100);
         y.size(2, 2, 10);
         due("fetched at once: one is enough", y.build(30, 24, 0), 25);
-        Check.refused(y, "wall 31", () -> y.build(31, 1, 0), BAD);
-        Check.refused(y, "25 hours", () -> y.build(1, 25, 0), BAD);
-        Check.refused(y, "what 2", () -> y.build(1, 1, 2), BAD);
+        Check.refuses(PromiseTest::oneSort, "wall 31", o -> o.build(31, 1, 0), BAD);
+        Check.refuses(PromiseTest::oneSort, "25 hours", o -> o.build(1, 25, 0), BAD);
+        Check.refuses(PromiseTest::oneSort, "what 2", o -> o.build(1, 1, 2), BAD);
         for (int far : FAR_OUT) {
-            Check.refused(y, "build(far, 1, 0)", () -> y.build(far, 1, 0), BAD);
-            Check.refused(y, "build(1, far, 0)", () -> y.build(1, far, 0), BAD);
-            Check.refused(y, "build(1, 1, far)", () -> y.build(1, 1, far), BAD);
+            Check.refuses(PromiseTest::oneSort, "build(far, 1, 0)", o -> o.build(far, 1, 0), BAD);
+            Check.refuses(PromiseTest::oneSort, "build(1, far, 0)", o -> o.build(1, far, 0), BAD);
+            Check.refuses(PromiseTest::oneSort, "build(1, 1, far)", o -> o.build(1, 1, far), BAD);
         }
     }
 
@@ -825,20 +945,19 @@ public final class PromiseTest {
         due("its price of two hours", x.price(0, 2), 9500000 - (-500000 - 500000));
         due("of no hours", x.worth(0, 0) + x.price(0, 0), 0);
         due("as it was", x.status(1) * 10 + x.status(4), 10);
-        Check.refusedFar(x, "worth of none free", () -> x.worth(1, 1), STUCK);
-        Check.refusedFar(x, "price of none free", () -> x.price(1, 1), STUCK);
-        x.size(0, 1, 1);
-        Check.refusedFar(x, "worth of a full one", () -> x.worth(0, 1), STUCK);
-        Check.refusedFar(x, "price of a full one", () -> x.price(0, 1), STUCK);
-        Check.refusedFar(x, "worth, BAD ahead", () -> x.worth(0, 25), BAD);
-        Check.refusedFar(x, "price, BAD ahead", () -> x.price(0, 25), BAD);
-        Check.refusedFar(x, "worth of size 3", () -> x.worth(3, 1), BAD);
-        Check.refusedFar(x, "price of size 3", () -> x.price(3, 1), BAD);
+        Check.refuses(Scenes::oneBox, "worth of none free", o -> o.worth(1, 1), Check.FAR, STUCK);
+        Check.refuses(Scenes::oneBox, "price of none free", o -> o.price(1, 1), Check.FAR, STUCK);
+        Check.refuses(Scenes::oneFullBox, "worth of a full one", o -> o.worth(0, 1), Check.FAR, STUCK);
+        Check.refuses(Scenes::oneFullBox, "price of a full one", o -> o.price(0, 1), Check.FAR, STUCK);
+        Check.refuses(Scenes::oneFullBox, "worth, BAD ahead", o -> o.worth(0, 25), Check.FAR, BAD);
+        Check.refuses(Scenes::oneFullBox, "price, BAD ahead", o -> o.price(0, 25), Check.FAR, BAD);
+        Check.refuses(Scenes::oneFullBox, "worth of size 3", o -> o.worth(3, 1), Check.FAR, BAD);
+        Check.refuses(Scenes::oneFullBox, "price of size 3", o -> o.price(3, 1), Check.FAR, BAD);
         for (int far : FAR_OUT) {
-            Check.refusedFar(x, "worth(far, 1)", () -> x.worth(far, 1), BAD);
-            Check.refusedFar(x, "worth(0, far)", () -> x.worth(0, far), BAD);
-            Check.refusedFar(x, "price(far, 1)", () -> x.price(far, 1), BAD);
-            Check.refusedFar(x, "price(0, far)", () -> x.price(0, far), BAD);
+            Check.refuses(Scenes::oneFullBox, "worth(far, 1)", o -> o.worth(far, 1), Check.FAR, BAD);
+            Check.refuses(Scenes::oneFullBox, "worth(0, far)", o -> o.worth(0, far), Check.FAR, BAD);
+            Check.refuses(Scenes::oneFullBox, "price(far, 1)", o -> o.price(far, 1), Check.FAR, BAD);
+            Check.refuses(Scenes::oneFullBox, "price(0, far)", o -> o.price(0, far), Check.FAR, BAD);
         }
     }
 
@@ -849,8 +968,8 @@ public final class PromiseTest {
         due("of two hours", x.brings(0, 2), 38000000 - 37500000);
         due("of no hours", x.brings(0, 0), 0);
         due("as it was", x.sortOf(0, 1), 50);
-        Check.refusedFar(x, "brings of no sort", () -> x.brings(2, 1), BAD);
-        Check.refusedFar(x, "brings of 25 hours", () -> x.brings(0, 25), BAD);
+        Check.refuses(Scenes::scarce, "brings of no sort", o -> o.brings(2, 1), Check.FAR, BAD);
+        Check.refuses(Scenes::scarce, "brings of 25 hours", o -> o.brings(0, 25), Check.FAR, BAD);
         ThreeSizes y = new ThreeSizes();
         for (int size = 0; size < 3; size++) {
             y.sort(size, 0, 1, 0);
@@ -860,12 +979,18 @@ public final class PromiseTest {
         due("fits", y.fits(0) * 100 + y.fits(1) * 10 + y.fits(2), 544);
         y.size(2, 1, 2);
         due("fits", y.fits(0) * 100 + y.fits(1) * 10 + y.fits(2), 100);
-        Check.refused(y, "fits of no sort", () -> y.fits(3), BAD);
+        Check.refuses(Scenes::threeSorts, "fits of no sort", o -> o.fits(3), BAD);
         for (int far : FAR_OUT) {
-            Check.refusedFar(x, "brings(far, 1)", () -> x.brings(far, 1), BAD);
-            Check.refusedFar(x, "brings(0, far)", () -> x.brings(0, far), BAD);
-            Check.refused(y, "fits(far)", () -> y.fits(far), BAD);
+            Check.refuses(Scenes::scarce, "brings(far, 1)", o -> o.brings(far, 1), Check.FAR, BAD);
+            Check.refuses(Scenes::scarce, "brings(0, far)", o -> o.brings(0, far), Check.FAR, BAD);
+            Check.refuses(Scenes::threeSorts, "fits(far)", o -> o.fits(far), BAD);
         }
+    }
+
+    private static ThreeSizes noLargeOneFree() {
+        ThreeSizes x = oneSort();
+        x.size(2, 1, 2);
+        return x;
     }
 
     private static void promises34and35() {
@@ -879,7 +1004,7 @@ public final class PromiseTest {
         ThreeSizes y = Scenes.oneBox();
         y.size(0, 1, 0);
         due("worst", y.worst(2), 0);
-        Check.refused(x, "worst of 25 hours", () -> x.worst(25), BAD);
+        Check.refuses(Scenes::oneBox, "worst of 25 hours", o -> o.worst(25), BAD);
         ThreeSizes b = new ThreeSizes();
         Scenes.boxes(b, 0, 0, 1);
         b.sort(0, 100, 10, 5);
@@ -898,12 +1023,11 @@ public final class PromiseTest {
         Scenes.boxes(c, 4, 0, 1);
         due("a large one is missed", c.board(1), -15000000);
         due("as it was", c.status(1) * 10 + c.status(3), 41);
-        c.size(2, 1, 1);
-        Check.refusedFar(c, "no large one is free", () -> c.board(1), STUCK);
-        Check.refusedFar(c, "BAD ahead", () -> c.board(25), BAD);
+        Check.refuses(PromiseTest::noLargeOneFree, "no large one is free", o -> o.board(1), Check.FAR, STUCK);
+        Check.refuses(PromiseTest::noLargeOneFree, "BAD ahead", o -> o.board(25), Check.FAR, BAD);
         for (int far : FAR_OUT) {
-            Check.refused(x, "worst(far)", () -> x.worst(far), BAD);
-            Check.refusedFar(c, "board(far)", () -> c.board(far), BAD);
+            Check.refuses(Scenes::oneBox, "worst(far)", o -> o.worst(far), BAD);
+            Check.refuses(PromiseTest::noLargeOneFree, "board(far)", o -> o.board(far), Check.FAR, BAD);
         }
     }
 
@@ -940,35 +1064,50 @@ public final class PromiseTest {
         z.size(2, 1, 1);
         due("a small one is of no use", z.letter(0, 1), 0);
         due("the large one is", z.whom(1), 2);
-        Check.refusedFar(x, "letter of no hours", () -> x.letter(0, 0), BAD);
-        Check.refusedFar(x, "letter of 25 hours", () -> x.letter(0, 25), BAD);
-        Check.refusedFar(x, "letter of size 3", () -> x.letter(3, 1), BAD);
-        Check.refused(x, "whom of no hours", () -> x.whom(0), BAD);
-        Check.refused(x, "whom of 25 hours", () -> x.whom(25), BAD);
+        Check.refuses(Scenes::oneFullBox, "letter of no hours", o -> o.letter(0, 0), Check.FAR, BAD);
+        Check.refuses(Scenes::oneFullBox, "letter of 25 hours", o -> o.letter(0, 25), Check.FAR, BAD);
+        Check.refuses(Scenes::oneFullBox, "letter of size 3", o -> o.letter(3, 1), Check.FAR, BAD);
+        Check.refuses(Scenes::oneFullBox, "whom of no hours", o -> o.whom(0), BAD);
+        Check.refuses(Scenes::oneFullBox, "whom of 25 hours", o -> o.whom(25), BAD);
         for (int far : FAR_OUT) {
-            Check.refusedFar(x, "letter(far, 1)", () -> x.letter(far, 1), BAD);
-            Check.refusedFar(x, "letter(0, far)", () -> x.letter(0, far), BAD);
-            Check.refused(x, "whom(far)", () -> x.whom(far), BAD);
+            Check.refuses(Scenes::oneFullBox, "letter(far, 1)", o -> o.letter(far, 1), Check.FAR, BAD);
+            Check.refuses(Scenes::oneFullBox, "letter(0, far)", o -> o.letter(0, far), Check.FAR, BAD);
+            Check.refuses(Scenes::oneFullBox, "whom(far)", o -> o.whom(far), BAD);
         }
+    }
+
+    private static ThreeSizes fiftyHundredths() {
+        ThreeSizes x = new ThreeSizes();
+        x.sort(0, 30, 10, 5);
+        x.sort(1, 20, 20, 5);
+        return x;
     }
 
     private static void promise38() {
         ThreeSizes x = new ThreeSizes();
         due("no sorts", x.feast(50, 3), 0);
-        x.sort(0, 30, 10, 5);
-        x.sort(1, 20, 20, 5);
+        x = fiftyHundredths();
         due("one hour", x.feast(10, 1), 1000000 + 2000000);
         due("25 each is just right", x.feast(25, 1), 2500000 + 5000000);
         due("none more", x.feast(0, 5), 0);
         due("of no hours", x.feast(25, 0), 0);
         due("as it was", x.sortOf(0, 1) + x.sortOf(1, 1), 50);
-        Check.refusedFar(x, "past 100", () -> x.feast(26, 1), STUCK);
-        Check.refusedFar(x, "BAD ahead", () -> x.feast(26, 25), BAD);
-        Check.refusedFar(x, "51", () -> x.feast(51, 1), BAD);
+        Check.refuses(PromiseTest::fiftyHundredths, "past 100", o -> o.feast(26, 1), Check.FAR, STUCK);
+        Check.refuses(PromiseTest::fiftyHundredths, "BAD ahead", o -> o.feast(26, 25), Check.FAR, BAD);
+        Check.refuses(PromiseTest::fiftyHundredths, "51", o -> o.feast(51, 1), Check.FAR, BAD);
         for (int far : FAR_OUT) {
-            Check.refusedFar(x, "feast(far, 1)", () -> x.feast(far, 1), BAD);
-            Check.refusedFar(x, "feast(1, far)", () -> x.feast(1, far), BAD);
+            Check.refuses(PromiseTest::fiftyHundredths, "feast(far, 1)", o -> o.feast(far, 1), Check.FAR, BAD);
+            Check.refuses(PromiseTest::fiftyHundredths, "feast(1, far)", o -> o.feast(1, far), Check.FAR, BAD);
         }
+    }
+
+    /** SHELF 0: a LEAST; 1: a ROW. */
+    private static ThreeSizes twentyHoursOld() {
+        ThreeSizes x = Scenes.oneBox();
+        x.rule(0, 1, 0);
+        x.row(1, 0, 1);
+        x.go(0, 20);
+        return x;
     }
 
     private static void promises39to41() {
@@ -1001,17 +1140,16 @@ public final class PromiseTest {
         due("taken less paid", x.day(5), sum);
         due("the seed", x.status(8), seed[0]);
         promise39WithBoxes();
-        x.row(1, 0, 1);
-        Check.refused(x, "go by no shelf", () -> x.go(8, 1), -1000002, BAD);
-        Check.refused(x, "no hours", () -> x.go(1, 0), -1000002, BAD);
-        Check.refused(x, "201 hours", () -> x.go(2, 201), -1000002, BAD);
-        Check.refused(x, "go by a row", () -> x.go(1, 1), -1000003, OTHER);
-        Check.refused(x, "go by nothing", () -> x.go(2, 1), -1000004, NOTHING);
-        Check.refused(x, "day 6", () -> x.day(6), -1000002, BAD);
+        Check.refuses(PromiseTest::twentyHoursOld, "go by no shelf", o -> o.go(8, 1), Check.BELOW, BAD);
+        Check.refuses(PromiseTest::twentyHoursOld, "no hours", o -> o.go(1, 0), Check.BELOW, BAD);
+        Check.refuses(PromiseTest::twentyHoursOld, "201 hours", o -> o.go(2, 201), Check.BELOW, BAD);
+        Check.refuses(PromiseTest::twentyHoursOld, "go by a row", o -> o.go(1, 1), Check.BELOW, OTHER);
+        Check.refuses(PromiseTest::twentyHoursOld, "go by nothing", o -> o.go(2, 1), Check.BELOW, NOTHING);
+        Check.refuses(PromiseTest::twentyHoursOld, "day 6", o -> o.day(6), Check.BELOW, BAD);
         for (int far : FAR_OUT) {
-            Check.refused(x, "go(far, 1)", () -> x.go(far, 1), -1000002, BAD);
-            Check.refused(x, "go(0, far)", () -> x.go(0, far), -1000002, BAD);
-            Check.refused(x, "day(far)", () -> x.day(far), -1000002, BAD);
+            Check.refuses(PromiseTest::twentyHoursOld, "go(far, 1)", o -> o.go(far, 1), Check.BELOW, BAD);
+            Check.refuses(PromiseTest::twentyHoursOld, "go(0, far)", o -> o.go(0, far), Check.BELOW, BAD);
+            Check.refuses(PromiseTest::twentyHoursOld, "day(far)", o -> o.day(far), Check.BELOW, BAD);
         }
     }
 
@@ -1065,7 +1203,8 @@ public final class PromiseTest {
 
     private static void promises42and43() {
         ThreeSizes x = new ThreeSizes();
-        Check.refused(x, "nothing was kept", x::back, STUCK);
+        Check.refuses(PromiseTest::oneSort, "nothing was kept", ThreeSizes::back, STUCK);
+        due("nothing was kept", x.back(), STUCK);
         Check.wall(x, "box 0 3;goes 1 7;near 3;way 8;sort 0 comes 30;sort 2 comes 50 worth 7");
         x.size(2, 1, 1);
         x.rule(0, 1, 0);
